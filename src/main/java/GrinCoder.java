@@ -35,6 +35,7 @@ public final class GrinCoder {
     private static final int HEAD_3 = 0x0A;
     private static final int HEAD_LENGTH = 4;
 
+    private static final int SIGN_TEXT_NEAR = 0x01;
     private static final int SIGN_EMPTY = 0x20;
     private static final int SIGN_NULL = 0x21;
     private static final int SIGN_TRUE = 0x23;
@@ -469,6 +470,14 @@ public final class GrinCoder {
             return has(i) && k >= 0 && k < lengths[i] ? bytes.at(starts[i] + k) : NONE;
         }
 
+        void copyText(int i, Row target) {
+            if (has(i)) {
+                for (int k = 0; k < lengths[i]; k++) {
+                    target.push(bytes.at(starts[i] + k));
+                }
+            }
+        }
+
         boolean isAscii(int i) {
             return has(i) && Utf8.isAscii(bytes, starts[i], lengths[i]);
         }
@@ -481,7 +490,7 @@ public final class GrinCoder {
                     mixed = mixed * 31 + bytes.at(starts[i] + k) + 1;
                 }
             }
-            return mixed ^ mixed >>> 8;
+            return mixed;
         }
 
         boolean haveSameText(int one, int other) {
@@ -549,16 +558,16 @@ public final class GrinCoder {
             items[size] = item;
             // Left out of the chains, a place that can't be told is never found.
             if (canBeTold(size)) {
-                int bucket = document.mixOf(item) & BUCKETS - 1;
+                int bucket = bucketOf(document.mixOf(item));
                 chain[size] = heads[bucket];
                 heads[bucket] = size;
             }
             size++;
         }
 
-        /** The place of an equal text that can be told; there is one at most of what is written. */
+        /** Where an equal text can be told; of what is written, there is one such place at most. */
         int placeOf(Document document, int item) {
-            int place = heads[document.mixOf(item) & BUCKETS - 1];
+            int place = heads[bucketOf(document.mixOf(item))];
             for (int step = 0; step < size && place >= 0 && place < size; step++) {
                 if (document.haveSameText(items[place], item)) {
                     return place;
@@ -566,6 +575,10 @@ public final class GrinCoder {
                 place = chain[place];
             }
             return NONE;
+        }
+
+        private static int bucketOf(int mixed) {
+            return (mixed ^ mixed >>> 8) & (BUCKETS - 1);
         }
     }
 
@@ -662,21 +675,17 @@ public final class GrinCoder {
 
         private void encodeText(int i) {
             int length = document.lengthOf(i);
-            if (length == 0) {
-                out.push(SIGN_EMPTY);
-                return;
-            }
+            boolean ascii = document.isAscii(i);
             boolean shared = (flags & FLAG_TEXTS) != 0 && Table.takes(length);
             int place = shared ? texts.placeOf(document, i) : NONE;
-            if (place != NONE) {
-                encodePlace(place, NEAR_TEXTS, 1, SIGN_TEXT_PLACE);
-                return;
-            }
-            if (shared) {
+            if (shared && place == NONE) {
                 texts.put(document, i);
             }
-            boolean ascii = document.isAscii(i);
-            if (length > LONGEST_SHORT) {
+            if (place != NONE) {
+                encodePlace(place, NEAR_TEXTS, SIGN_TEXT_NEAR, SIGN_TEXT_PLACE);
+            } else if (length == 0) {
+                out.push(SIGN_EMPTY);
+            } else if (length > LONGEST_SHORT) {
                 encodeLong(i, ascii ? SIGN_LONG_ASCII : SIGN_LONG_TEXT);
             } else {
                 encodeShort(i, ascii ? SIGN_SHORT_ASCII + length - 1 : SIGN_SHORT_TEXT + length - 2);
@@ -685,21 +694,17 @@ public final class GrinCoder {
 
         private void encodeName(int i) {
             int length = document.lengthOf(i);
-            if (length == 0) {
-                out.push(SIGN_EMPTY);
-                return;
-            }
+            boolean ascii = document.isAscii(i);
             boolean shared = (flags & FLAG_NAMES) != 0 && Table.takes(length);
             int place = shared ? names.placeOf(document, i) : NONE;
-            if (place != NONE) {
-                encodePlace(place, NEAR_NAMES, NAME_NEAR, NAME_PLACE);
-                return;
-            }
-            if (shared) {
+            if (shared && place == NONE) {
                 names.put(document, i);
             }
-            boolean ascii = document.isAscii(i);
-            if (length > (ascii ? LONGEST_SHORT : LONGEST_NAME_TEXT)) {
+            if (place != NONE) {
+                encodePlace(place, NEAR_NAMES, NAME_NEAR, NAME_PLACE);
+            } else if (length == 0) {
+                out.push(SIGN_EMPTY);
+            } else if (length > (ascii ? LONGEST_SHORT : LONGEST_NAME_TEXT)) {
                 encodeLong(i, NAME_LONG);
             } else {
                 encodeShort(i, ascii ? NAME_ASCII + length - 1 : NAME_TEXT + length - 2);
@@ -717,12 +722,12 @@ public final class GrinCoder {
 
         private void encodeShort(int i, int sign) {
             out.push(sign);
-            pushBytesOf(i);
+            document.copyText(i, out);
         }
 
         private void encodeLong(int i, int sign) {
             out.push(sign);
-            pushBytesOf(i);
+            document.copyText(i, out);
             out.push(SIGN_STOP);
         }
 
@@ -731,15 +736,9 @@ public final class GrinCoder {
             out.push(raw ? SIGN_RAW : SIGN_BITS);
             encodeCount(document.lengthOf(i));
             if (raw) {
-                pushBytesOf(i);
+                document.copyText(i, out);
             } else {
                 pushBitsOf(i);
-            }
-        }
-
-        private void pushBytesOf(int i) {
-            for (int k = 0; k < document.lengthOf(i); k++) {
-                out.push(document.textByte(i, k));
             }
         }
 
@@ -905,8 +904,8 @@ public final class GrinCoder {
         /** The texts, and what one byte tells whole. */
         private void scanBrief(int sign) {
             kind = KIND_TEXT;
-            if (sign >= 1 && sign < SIGN_EMPTY) {
-                scanNearPlace(sign - 1);
+            if (sign >= SIGN_TEXT_NEAR && sign < SIGN_EMPTY) {
+                scanNearPlace(sign - SIGN_TEXT_NEAR);
             } else if (sign == SIGN_EMPTY) {
                 scanShort(0, FORM_TEXT);
             } else if (sign >= SIGN_NULL && sign <= SIGN_TRUE) {
@@ -1005,8 +1004,9 @@ public final class GrinCoder {
             long count = takeCount(5, 32);
             start = at;
             int last = 0;
-            // A count that is far too great ends with the bytes.
-            for (long k = 0; k < sevensOf(count) && fault == 0; k++) {
+            // However great the count is: one byte more than there are meets the fault.
+            long sevens = Math.min(sevensOf(count), in.size() + 1L);
+            for (long k = 0; k < sevens && fault == 0; k++) {
                 last = takeSeven();
             }
             if (fault == 0) {
@@ -1063,7 +1063,7 @@ public final class GrinCoder {
 
         /** Whether there are too many bits is only kept: it counts when all of the item is there. */
         private long append(long before, int bits, int width, int mostBits) {
-            over = over || before >>> mostBits - width != 0;
+            over = over || before >>> (mostBits - width) != 0;
             return before << width | bits;
         }
 

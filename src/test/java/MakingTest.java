@@ -81,10 +81,10 @@ final class MakingTest {
     }
 
     private static void typedTexts() {
-        String[] good = {"", "00", "7F", "C280", "DFBF", "E0A080", "ED9FBF", "EE8080", "EFBFBF", "F0908080",
-            "F48FBFBF", "61C3A962", "F09F9880E282AC"};
-        String[] bad = {"80", "BF", "C080", "C1BF", "C2", "C27F", "C2C0", "E08080", "E09FBF", "E0A0", "E1807F",
-            "EDA080", "EDBFBF", "F0808080", "F08FBFBF", "F4908080", "F5808080", "F8888080", "FF", "FC", "FE",
+        String[] good = {"", "00", "7F", "C280", "DFBF", "E0A080", "E0BFBF", "ED8080", "ED9FBF", "EE8080",
+            "EFBFBF", "F0908080", "F0BFBFBF", "F4808080", "F48FBFBF", "61C3A962", "F09F9880E282AC"};
+        String[] bad = {"80", "BF", "C080", "C1BF", "C2", "C27F", "C2C0", "E08080", "E09FBF", "E0A0", "E0C080", "E1807F", "E180C0",
+            "EDA080", "EDBFBF", "F0808080", "F08FBFBF", "F0C08080", "F18080C0", "F4908080", "F5808080", "F8888080", "FF", "FC", "FE",
             "61C3", "C3A9A9", "F09F98", "F09F987F"};
         for (String hex : good) {
             GrinCoder x = new GrinCoder();
