@@ -248,7 +248,7 @@ final class ModelTest {
 
     private byte[] anySigns(int n) {
         ByteArrayOutputStream out = new ByteArrayOutputStream();
-        out.writeBytes(Probe.bytes(Probe.HEAD));
+        out.writeBytes(Probe.bytes("3A290A"));
         out.write(chance.nextInt(8));
         out.write(chance.nextInt(4) == 0 ? 0xFA : 0xF8);
         for (int k = 0; k < n; k++) {
@@ -294,7 +294,7 @@ final class ModelTest {
     /** So many texts or names that tables are filled, places can't be told, or room ends. */
     private void manyTexts() {
         ByteArrayOutputStream out = new ByteArrayOutputStream();
-        out.writeBytes(Probe.bytes(Probe.HEAD));
+        out.writeBytes(Probe.bytes("3A290A"));
         out.write(chance.nextInt(4) == 0 ? 0 : 3);
         boolean parts = chance.nextInt(3) == 0;
         int[] sizes = {200, 260, 520, 700, 1024, 1030, 1100, 1490, 1510};
@@ -324,7 +324,7 @@ final class ModelTest {
     /** About as many items, bytes, or arrays within each other as there may be. */
     private void endOfRoom() {
         ByteArrayOutputStream out = new ByteArrayOutputStream();
-        out.writeBytes(Probe.bytes(Probe.HEAD));
+        out.writeBytes(Probe.bytes("3A290A"));
         out.write(7);
         int depth = chance.nextInt(2) == 0 ? 1 : 29 + chance.nextInt(3);
         for (int k = 0; k < depth; k++) {

@@ -1,14 +1,38 @@
-import java.util.Random;
+import java.io.IOException;
+import java.nio.file.Files;
+import java.nio.file.Path;
 
-/** What the tests share: bytes as hex, calls in rows, and the answers that were not due. */
+/** What the tests share: bytes as hex, and the answers that were not due, each with the sentence it breaks. */
 final class Probe {
-    static final int ARRAY = 5;
-    static final int OBJECT = 6;
-    static final String HEAD = "3A290A";
-
+    private static final String DOCUMENT = document();
     private static int wrong = 0;
+    private static int sentences = 0;
+    private static String sentence = "";
 
     private Probe() {
+    }
+
+    /** The document's words without their line ends; nothing when it is not told where it stands. */
+    private static String document() {
+        String path = System.getProperty("document");
+        try {
+            return path == null ? null : plain(Files.readString(Path.of(path)));
+        } catch (IOException e) {
+            throw new IllegalStateException("the document can't be read: " + path, e);
+        }
+    }
+
+    private static String plain(String text) {
+        return text.replaceAll("\\s+", " ");
+    }
+
+    /** What is tested from here on: words of the document, which must still stand there. */
+    static void sentence(String words) {
+        sentence = words;
+        sentences++;
+        if (DOCUMENT != null && !DOCUMENT.contains(plain(words))) {
+            complain("these words are not in the document");
+        }
     }
 
     static void due(String what, long got, long want) {
@@ -25,18 +49,19 @@ final class Probe {
 
     private static void complain(String text) {
         wrong++;
-        System.out.println(text);
+        System.out.println((sentence.isEmpty() ? "" : "\"" + sentence + "\": ") + text);
     }
 
     static void finish() {
-        System.out.println(wrong == 0 ? "all answers are as due" : wrong + " answers are not as due");
+        String tested = sentences == 0 ? "" : sentences + " sentences: ";
+        System.out.println(tested + (wrong == 0 ? "all answers are as due" : wrong + " answers are not as due"));
         if (wrong != 0) {
             System.exit(1);
         }
     }
 
     static byte[] bytes(String hex) {
-        String plain = hex.replace(" ", "");
+        String plain = plainHex(hex);
         byte[] row = new byte[plain.length() / 2];
         for (int k = 0; k < row.length; k++) {
             row[k] = (byte) Integer.parseInt(plain.substring(2 * k, 2 * k + 2), 16);
@@ -44,117 +69,30 @@ final class Probe {
         return row;
     }
 
-    static String hex(byte[] row) {
-        StringBuilder text = new StringBuilder();
-        for (byte b : row) {
-            text.append(String.format("%02X", b & 0xFF));
-        }
-        return text.toString();
-    }
-
-    static String hex(String hex) {
+    static String plainHex(String hex) {
         return hex.replace(" ", "");
     }
 
-    /** The n bytes from start as a number, the first of them highest; noise above them. */
-    private static long packed(byte[] row, int start, int n) {
-        long number = n == 8 ? 0 : new Random(start).nextLong();
-        for (int k = 0; k < n; k++) {
-            number = number << 8 | row[start + k] & 0xFF;
-        }
-        return number;
+    static String hex(int b) {
+        return String.format("%02X", b & 0xFF);
     }
 
-    static int type(GrinCoder x, String hex) {
-        byte[] row = bytes(hex);
-        int answer = x.count(3);
-        for (int k = 0; k < row.length; k += 8) {
-            int n = Math.min(8, row.length - k);
-            answer = x.type(packed(row, k, n), n);
-        }
-        return answer;
-    }
-
-    static int load(GrinCoder x, String hex) {
-        byte[] row = bytes(hex);
-        int answer = x.count(4);
-        for (int k = 0; k < row.length; k += 8) {
-            int n = Math.min(8, row.length - k);
-            answer = x.load(packed(row, k, n), n);
-        }
-        return answer;
-    }
-
-    static int text(GrinCoder x, String hex) {
-        type(x, hex);
-        return x.value(3);
-    }
-
-    static int raw(GrinCoder x, String hex) {
-        type(x, hex);
-        return x.value(4);
-    }
-
-    static int name(GrinCoder x, String hex) {
-        type(x, hex);
-        return x.name();
-    }
-
-    /** Loads bytes behind the head, and reads them. */
-    static int read(GrinCoder x, int flags, String hex) {
-        load(x, HEAD + String.format("%02X", flags) + hex);
-        return x.read();
-    }
-
-    static GrinCoder reading(int flags, String hex) {
-        GrinCoder x = new GrinCoder();
-        due("read() of " + hex, read(x, flags, hex), 0);
-        return x;
-    }
-
-    /** What was written, without its head. */
-    static String written(GrinCoder x, int flags) {
-        int n = x.write(flags);
-        String all = writtenFrom(x, 0);
-        due("write(" + flags + ")", n, all.length() / 2);
-        due("the head", all.substring(0, 8), HEAD + String.format("%02X", flags));
-        return all.substring(8);
-    }
-
-    static String writtenFrom(GrinCoder x, int from) {
-        StringBuilder all = new StringBuilder();
-        for (int k = from; x.written(k) != GrinCoder.NONE; k++) {
-            all.append(String.format("%02X", x.written(k)));
-        }
-        return all.toString();
+    /** The four bytes before all values. */
+    static String head(int flags) {
+        return "3A290A" + hex(flags);
     }
 
     static String times(String hex, int n) {
-        return hex.replace(" ", "").repeat(n);
+        return plainHex(hex).repeat(n);
     }
 
-    /** All items: n f t, s: and b: with bytes, i: r: R: with numbers, [ { k: and ] with depths. */
-    static String items(GrinCoder x) {
-        StringBuilder all = new StringBuilder();
-        for (int i = 0; x.item(i, 0) != GrinCoder.NONE; i++) {
-            int kind = x.item(i, 0);
-            all.append(i == 0 ? "" : " ").append(x.item(i, 2)).append("nftsb[{irRk]".charAt(kind));
-            if (kind == 3 || kind == 4 || kind == 10) {
-                all.append(bytesOf(x, i));
-            } else if (kind >= 7 && kind <= 9) {
-                all.append(x.number(i));
-            }
-        }
-        return all.toString();
+    static String brief(String hex) {
+        String plain = plainHex(hex);
+        return plain.length() > 60 ? plain.substring(0, 30) + ".." + plain.substring(plain.length() - 26) : plain;
     }
 
-    static String bytesOf(GrinCoder x, int i) {
-        StringBuilder all = new StringBuilder();
-        int k = 0;
-        for (; x.byteOf(i, k) != GrinCoder.NONE; k++) {
-            all.append(String.format("%02X", x.byteOf(i, k)));
-        }
-        due("item(" + i + ", 1)", x.item(i, 1), k);
-        return all.toString();
+    /** Text k of 4096 that are not the same, of two bytes. */
+    static String twoBytes(int k) {
+        return hex(0x20 + k / 64) + hex(0x30 + k % 64);
     }
 }
