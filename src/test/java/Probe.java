@@ -26,13 +26,23 @@ final class Probe {
         return text.replaceAll("\\s+", " ");
     }
 
-    /** What is tested from here on: words of the document, which must still stand there. */
-    static void sentence(String words) {
-        sentence = words;
+    /** What is tested from here on: words of a section of the document, which must still stand there. */
+    static void sentence(String section, String words) {
+        sentence = section + ", \"" + words + "\": ";
         sentences++;
-        if (DOCUMENT != null && !DOCUMENT.contains(plain(words))) {
+        if (DOCUMENT != null && !section(section).contains(plain(words))) {
             complain("these words are not in the document");
         }
+    }
+
+    /** All words from a section's heading to the next one. */
+    private static String section(String name) {
+        for (String text : DOCUMENT.split(" ## ")) {
+            if (text.startsWith(name + ":") || text.startsWith(name + " ")) {
+                return text;
+            }
+        }
+        return "";
     }
 
     static void due(String what, long got, long want) {
@@ -49,7 +59,7 @@ final class Probe {
 
     private static void complain(String text) {
         wrong++;
-        System.out.println((sentence.isEmpty() ? "" : "\"" + sentence + "\": ") + text);
+        System.out.println(sentence + text);
     }
 
     static void finish() {

@@ -62,29 +62,30 @@ final class PromisesAskingTest {
     }
 
     private static void kinds(Run x) {
-        Probe.sentence("Of item i its kind (what 0: 0 to 6 as above, 7 an integer, 8 a real of 32 bits, 9 of 64, 10 a"
-            + " name, 11 an end),");
+        Probe.sentence("Promise 15", "Of item i its kind (what 0: 0 to 6 as above, 7 an integer, 8 a real of 32"
+            + " bits, 9 of 64, 10 a name, 11 an end),");
         for (int i = 0; i < KINDS.length; i++) {
             Probe.due("item(" + i + ", 0)", x.item(i, 0), KINDS[i]);
         }
     }
 
     private static void lengths(Run x) {
-        Probe.sentence("how many bytes its text or bytes have (1; 0 for others),");
+        Probe.sentence("Promise 15", "how many bytes its text or bytes have (1; 0 for others),");
         for (int i = 0; i < KINDS.length; i++) {
             Probe.due("item(" + i + ", 1)", x.item(i, 1), LENGTHS[i]);
         }
     }
 
     private static void depths(Run x) {
-        Probe.sentence("within how many arrays and objects it is (2; an end: of those it is left in);");
+        Probe.sentence("Promise 15", "within how many arrays and objects it is (2; an end: of those it is left"
+            + " in);");
         for (int i = 0; i < KINDS.length; i++) {
             Probe.due("item(" + i + ", 2)", x.item(i, 2), DEPTHS[i]);
         }
     }
 
     private static void noneSuch(Run x) {
-        Probe.sentence("NONE when there is none such.");
+        Probe.sentence("Promise 15", "NONE when there is none such.");
         for (int what = 0; what <= 2; what++) {
             Probe.due("item behind the last", x.item(KINDS.length, what), NONE);
             for (int far : FAR) {
@@ -103,7 +104,7 @@ final class PromisesAskingTest {
     }
 
     private static void numbers(Run x) {
-        Probe.sentence("The integer of item i, or the bits of its real; 0 for others.");
+        Probe.sentence("Promise 16", "The integer of item i, or the bits of its real; 0 for others.");
         for (int i = 0; i < KINDS.length; i++) {
             Probe.due("number(" + i + ")", x.number(i), NUMBERS[i]);
         }
@@ -120,7 +121,7 @@ final class PromisesAskingTest {
     }
 
     private static void bytes(Run x) {
-        Probe.sentence("Byte k of the text or bytes of item i;");
+        Probe.sentence("Promise 17", "Byte k of the text or bytes of item i;");
         int[][] due = {{1, 0xC3, 0xA9}, {6, 0x61, 0x62, 0x63}, {7, 0x00, 0xFF, 0x80}};
         for (int[] row : due) {
             for (int k = 1; k < row.length; k++) {
@@ -130,7 +131,7 @@ final class PromisesAskingTest {
     }
 
     private static void noBytes(Run x) {
-        Probe.sentence("Byte k of the text or bytes of item i; NONE when there is none.");
+        Probe.sentence("Promise 17", "Byte k of the text or bytes of item i; NONE when there is none.");
         for (int i = 0; i < KINDS.length; i++) {
             Probe.due("byteOf(" + i + ", -1)", x.byteOf(i, -1), NONE);
             Probe.due("byteOf(" + i + ", n)", x.byteOf(i, LENGTHS[i]), NONE);
@@ -146,7 +147,8 @@ final class PromisesAskingTest {
     }
 
     private static void depthsOfDeep() {
-        Probe.sentence("within how many arrays and objects it is (2; an end: of those it is left in);");
+        Probe.sentence("Promise 15", "within how many arrays and objects it is (2; an end: of those it is left"
+            + " in);");
         Run x = new Run();
         for (int k = 0; k < 30; k++) {
             x.value(5);
@@ -163,7 +165,7 @@ final class PromisesAskingTest {
     }
 
     private static void lastItems() {
-        Probe.sentence("NONE when there is none such.");
+        Probe.sentence("Promise 15", "NONE when there is none such.");
         Run x = Run.of(4, "F8" + Probe.times("21", 1497) + "FD81AA" + "F9");
         Probe.due("item(1498, 0)", x.item(1498, 0), 4);
         Probe.due("byteOf(1498, 0)", x.byteOf(1498, 0), 0xAA);
@@ -181,7 +183,7 @@ final class PromisesAskingTest {
     }
 
     private static void openDocuments() {
-        Probe.sentence("Of item i its kind");
+        Probe.sentence("Promise 15", "Of item i its kind");
         Run x = new Run();
         x.value(6);
         x.name("61");
@@ -193,7 +195,7 @@ final class PromisesAskingTest {
     }
 
     private static void countOfItems() {
-        Probe.sentence("How many items there are (what 0),");
+        Probe.sentence("Promise 18", "How many items there are (what 0),");
         Run x = new Run();
         Probe.due("none", x.count(0), 0);
         x.value(5);
@@ -205,7 +207,7 @@ final class PromisesAskingTest {
     }
 
     private static void countOfWhole() {
-        Probe.sentence("whether the document is whole (1: 1, 0; 0 without one),");
+        Probe.sentence("Promise 18", "whether the document is whole (1: 1, 0; 0 without one),");
         Run x = new Run();
         Probe.due("none", x.count(1), 0);
         x.value(6);
@@ -224,7 +226,7 @@ final class PromisesAskingTest {
     }
 
     private static void countOfBytes() {
-        Probe.sentence("bytes of all its texts and bytes (2),");
+        Probe.sentence("Promise 18", "bytes of all its texts and bytes (2),");
         Run x = allKinds();
         Probe.due("of all kinds", x.count(2), 8);
         x.types("010203");
@@ -238,7 +240,7 @@ final class PromisesAskingTest {
     }
 
     private static void countOfTyped() {
-        Probe.sentence("bytes that are typed (3),");
+        Probe.sentence("Promise 18", "bytes that are typed (3),");
         Run x = new Run();
         Probe.due("none", x.count(3), 0);
         x.types(Probe.times("61", 1000));
@@ -248,7 +250,7 @@ final class PromisesAskingTest {
     }
 
     private static void countOfLoaded() {
-        Probe.sentence("loaded (4),");
+        Probe.sentence("Promise 18", "loaded (4),");
         Run x = new Run();
         Probe.due("none", x.count(4), 0);
         x.loads("3A290A0021");
@@ -258,7 +260,7 @@ final class PromisesAskingTest {
     }
 
     private static void countOfWritten() {
-        Probe.sentence("written (5);");
+        Probe.sentence("Promise 18", "written (5);");
         Run x = new Run();
         Probe.due("none", x.count(5), 0);
         x.text("616263");
@@ -271,7 +273,7 @@ final class PromisesAskingTest {
     }
 
     private static void countOfOthers() {
-        Probe.sentence("NONE for others.");
+        Probe.sentence("Promise 18", "NONE for others.");
         for (Run x : new Run[] {new Run(), allKinds()}) {
             for (int what : new int[] {-1, 6, 7, 8, Integer.MIN_VALUE, Integer.MAX_VALUE}) {
                 Probe.due("count(" + what + ")", x.count(what), NONE);
@@ -283,8 +285,8 @@ final class PromisesAskingTest {
     }
 
     private static void checks() {
-        Probe.sentence("Whether the document has one value at most, and all that is open in it is not more than it has:"
-            + " 1;");
+        Probe.sentence("Promise 19", "Whether the document has one value at most, and all that is open in it is"
+            + " not more than it has: 1;");
         Run x = new Run();
         Probe.due("none", x.check(), 1);
         for (int k = 0; k < 31; k++) {
@@ -306,7 +308,8 @@ final class PromisesAskingTest {
     }
 
     private static void nothingIsChanged() {
-        Probe.sentence("Nothing is promised beyond the answers and state changes described above,");
+        Probe.sentence("Not promised", "Nothing is promised beyond the answers and state changes described"
+            + " above,");
         // Questions change nothing: Run takes that for granted.
         GrinCoder asked = new GrinCoder();
         asked.value(6);

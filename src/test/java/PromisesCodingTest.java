@@ -21,6 +21,7 @@ final class PromisesCodingTest {
         loadedAreNoneThen();
         readsTheDocument();
         readsAndTheDocumentStays();
+        placeOfTheLatest();
         placesOf1To3();
         placesOf4To7();
         placeOf8();
@@ -40,14 +41,14 @@ final class PromisesCodingTest {
     }
 
     private static void constants() {
-        Probe.sentence("`NONE = -1`: There is none, or nothing is done.");
+        Probe.sentence("Terms", "`NONE = -1`: There is none, or nothing is done.");
         Probe.due("NONE", GrinCoder.NONE, -1);
-        Probe.sentence("`FULL = -2`: It would be too long.");
+        Probe.sentence("Terms", "`FULL = -2`: It would be too long.");
         Probe.due("FULL", GrinCoder.FULL, -2);
     }
 
     private static void writes() {
-        Probe.sentence("Writes the document with flags: how many bytes.");
+        Probe.sentence("Promise 9", "Writes the document with flags: how many bytes.");
         for (int flags = 0; flags <= 7; flags++) {
             Run x = new Run();
             x.value(5);
@@ -66,7 +67,7 @@ final class PromisesCodingTest {
     }
 
     private static void writtenStaysWhenNotWhole() {
-        Probe.sentence("NONE, and what was written stays, when it is not whole,");
+        Probe.sentence("Promise 9", "NONE, and what was written stays, when it is not whole,");
         Run x = new Run();
         refused("write(0) without a document, none written", x, NONE, y -> y.write(0));
         x.integer(5);
@@ -87,7 +88,7 @@ final class PromisesCodingTest {
     }
 
     private static void writtenStaysWithoutSuchFlags() {
-        Probe.sentence("or there are no such flags;");
+        Probe.sentence("Promise 9", "or there are no such flags;");
         Run x = new Run();
         x.integer(5);
         for (int round = 0; round < 2; round++) {
@@ -105,7 +106,7 @@ final class PromisesCodingTest {
     }
 
     private static void writtenUpTo6000() {
-        Probe.sentence("FULL likewise, when it would be more than 6000.");
+        Probe.sentence("Promise 9", "FULL likewise, when it would be more than 6000.");
         Run x = nearly6000("21212121");
         Probe.due("write to 6000", x.write(0), 6000);
         Probe.due("count(5)", x.count(5), 6000);
@@ -117,9 +118,9 @@ final class PromisesCodingTest {
     }
 
     private static void writtenOf6001() {
-        Probe.sentence("FULL likewise, when it would be more than 6000.");
-        for (String more : new String[] {"2121212121", "21212124A0", "2121214161" + "62", "2121E88100" + "00", "212121F8F9",
-            "4761626364" + "65666768"}) {
+        Probe.sentence("Promise 9", "FULL likewise, when it would be more than 6000.");
+        for (String more : new String[] {"2121212121", "21212124A0", "212121416162", "2121E8810000", "212121F8F9",
+            "476162636465666768"}) {
             Run x = nearly6000(more);
             refused("write to 6001 and more, none written", x, FULL, y -> y.write(0));
             Probe.due("write with places", x.write(2), 4 + 1 + 5 + 1197 + more.length() / 2 + 1);
@@ -131,7 +132,7 @@ final class PromisesCodingTest {
     }
 
     private static void writtenBytes() {
-        Probe.sentence("Byte k of what was written latest; NONE when there is none.");
+        Probe.sentence("Promise 10", "Byte k of what was written latest; NONE when there is none.");
         Run x = new Run();
         Probe.due("written(0) of none", x.written(0), NONE);
         x.bytes("00FF");
@@ -147,7 +148,7 @@ final class PromisesCodingTest {
     }
 
     private static void writtenLatest() {
-        Probe.sentence("Byte k of what was written latest;");
+        Probe.sentence("Promise 10", "Byte k of what was written latest;");
         Run x = new Run();
         x.text("616263");
         x.write(0);
@@ -165,7 +166,7 @@ final class PromisesCodingTest {
     }
 
     private static void loads() {
-        Probe.sentence("Bytes to be read, behind others, like type(), at most 6000.");
+        Probe.sentence("Promise 11", "Bytes to be read, behind others, like type(), at most 6000.");
         Run x = new Run();
         Probe.due("the 2 lowest", x.load(0x77773A29L, 2), 2);
         Probe.due("the 1 lowest", x.load(0xFFFFFF0AL, 1), 3);
@@ -178,7 +179,7 @@ final class PromisesCodingTest {
     }
 
     private static void loadsOf1To8() {
-        Probe.sentence("Bytes to be read, behind others, like type(), at most 6000.");
+        Probe.sentence("Promise 11", "Bytes to be read, behind others, like type(), at most 6000.");
         Run some = new Run();
         some.loads("3A290A0021");
         for (Run x : new Run[] {new Run(), some}) {
@@ -192,7 +193,7 @@ final class PromisesCodingTest {
     }
 
     private static void loadsUpTo6000() {
-        Probe.sentence("Bytes to be read, behind others, like type(), at most 6000.");
+        Probe.sentence("Promise 11", "Bytes to be read, behind others, like type(), at most 6000.");
         // No 512 calls load so many: what was written comes first.
         Run x = nearly6000("212121");
         x.write(0);
@@ -217,7 +218,7 @@ final class PromisesCodingTest {
     }
 
     private static void loops() {
-        Probe.sentence("All that was written is to be read, in place of others: how many bytes.");
+        Probe.sentence("Promise 12", "All that was written is to be read, in place of others: how many bytes.");
         Run x = new Run();
         x.loads("3A290A0021");
         Probe.due("loop(), none written", x.loop(), 0);
@@ -243,7 +244,7 @@ final class PromisesCodingTest {
     }
 
     private static void loopsOfAll() {
-        Probe.sentence("All that was written is to be read,");
+        Probe.sentence("Promise 12", "All that was written is to be read,");
         Run x = nearly6000("21212121");
         String items = x.items();
         x.write(0);
@@ -254,7 +255,7 @@ final class PromisesCodingTest {
     }
 
     private static void loadedAreNoneThen() {
-        Probe.sentence("Reads the loaded bytes, which are none then:");
+        Probe.sentence("Promise 13", "Reads the loaded bytes, which are none then:");
         Run x = new Run();
         x.loads("3A290A0021");
         Probe.due("read()", x.read(), 0);
@@ -273,7 +274,7 @@ final class PromisesCodingTest {
     }
 
     private static void readsTheDocument() {
-        Probe.sentence("0, and what they tell is the document;");
+        Probe.sentence("Promise 13", "0, and what they tell is the document;");
         Run x = new Run();
         x.value(6);
         x.name("61");
@@ -295,9 +296,9 @@ final class PromisesCodingTest {
     }
 
     private static void readsAndTheDocumentStays() {
-        Probe.sentence("or the fault, and that stays.");
+        Probe.sentence("Promise 13", "or the fault, and that stays.");
         String[] wrong = {"", "3A290A00F84061", "3A290A00F84061FF", "3A290A00F821214080", "3A290A02F8406102",
-            "3A290A00F8406124" + "2000000080", "3A290A00" + Probe.times("F8", 31), "3A290A00F84061F900"};
+            "3A290A00F84061242000000080", "3A290A00" + Probe.times("F8", 31), "3A290A00F84061F900"};
         Run open = new Run();
         open.value(6);
         open.name("7A");
@@ -329,16 +330,28 @@ final class PromisesCodingTest {
         x.loads(hex);
         Probe.due("read() of " + Probe.brief(hex), x.read(), fault);
         Probe.due("place() of " + Probe.brief(hex), x.place(), place);
+    }
+
+    private static void placeOfTheLatest() {
+        Probe.sentence("Promise 14", "The number, from 0, of the byte with the fault of the latest read():");
+        Run x = new Run();
+        x.reads(0, "F82100");
+        Probe.due("place()", x.place(), 6);
         x.integer(1);
         x.write(0);
         x.types("61");
         x.loads("3A290A0021");
+        x.loop();
         x.drop();
-        Probe.due("place() is of the latest read()", x.place(), place);
+        Probe.due("place() before another read()", x.place(), 6);
+        x.reads(0, "F9");
+        Probe.due("place() of bytes behind what was looped", x.place(), 5);
+        x.read();
+        Probe.due("place() of none", x.place(), 0);
     }
 
     private static void placesOf1To3() {
-        Probe.sentence("for 1, 2, 3 that which is wrong or missing,");
+        Probe.sentence("Promise 14", "for 1, 2, 3 that which is wrong or missing,");
         placed("", 1, 0);
         placed("3A", 1, 1);
         placed("3A29", 1, 2);
@@ -352,13 +365,13 @@ final class PromisesCodingTest {
         placed("3A290A04FDBF" + Probe.times("61", 5), 2, 11);
         placed("3A290A0000", 3, 4);
         placed("3A290A00F82100", 3, 6);
-        placed("3A290A002400000000" + "7F", 3, 9);
-        placed("3A290A0028000000" + "0080", 3, 9);
+        placed("3A290A0024000000007F", 3, 9);
+        placed("3A290A00280000000080", 3, 9);
         placed("3A290A00E8827F80", 3, 7);
     }
 
     private static void placesOf4To7() {
-        Probe.sentence("for 4 to 7 the first one of its item,");
+        Probe.sentence("Promise 14", "for 4 to 7 the first one of its item,");
         placed("3A290A00F842616180", 4, 5);
         placed("3A290A00FA82616180", 4, 5);
         placed("3A290A00FA806142616180", 4, 7);
@@ -374,7 +387,7 @@ final class PromisesCodingTest {
     }
 
     private static void placeOf8() {
-        Probe.sentence("for 8 the first one behind the value;");
+        Probe.sentence("Promise 14", "for 8 the first one behind the value;");
         placed("3A290A002121", 8, 5);
         placed("3A290A0021" + Probe.times("00", 30), 8, 5);
         placed("3A290A00F8F9F9", 8, 6);
@@ -382,7 +395,7 @@ final class PromisesCodingTest {
     }
 
     private static void noPlace() {
-        Probe.sentence("NONE when it had none.");
+        Probe.sentence("Promise 14", "NONE when it had none.");
         Run x = new Run();
         Probe.due("place() before read()", x.place(), NONE);
         x.reads(0, "21");

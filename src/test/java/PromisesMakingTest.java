@@ -16,6 +16,8 @@ final class PromisesMakingTest {
         aNameMustCome();
         bytesThatAreNoText();
         tooManyWithinEachOther();
+        tooManyItems();
+        tooManyBytes();
         integers();
         reals();
         noSuchWidth();
@@ -44,7 +46,7 @@ final class PromisesMakingTest {
     }
 
     private static void newObject() {
-        Probe.sentence("`GrinCoder()`: No document; nothing is typed, loaded, written.");
+        Probe.sentence("Promise 1", "`GrinCoder()`: No document; nothing is typed, loaded, written.");
         Run x = new Run();
         for (int what = 0; what <= 5; what++) {
             Probe.due("count(" + what + ")", x.count(what), 0);
@@ -62,7 +64,8 @@ final class PromisesMakingTest {
     }
 
     private static void lowestBytes() {
-        Probe.sentence("The n lowest bytes of a number, the highest of them first, are typed behind others:");
+        Probe.sentence("Promise 2", "The n lowest bytes of a number, the highest of them first, are typed"
+            + " behind others:");
         long number = 0xF122334455667788L;
         String hex = "F122334455667788";
         for (int n = 1; n <= 8; n++) {
@@ -81,7 +84,7 @@ final class PromisesMakingTest {
     }
 
     private static void howManyAreTyped() {
-        Probe.sentence("are typed behind others: how many are.");
+        Probe.sentence("Promise 2", "are typed behind others: how many are.");
         Run x = new Run();
         int sum = 0;
         for (int n = 1; n <= 8; n++) {
@@ -92,7 +95,7 @@ final class PromisesMakingTest {
     }
 
     private static void typedOf1To8() {
-        Probe.sentence("NONE, and nothing is done, when n is not 1 .. 8,");
+        Probe.sentence("Promise 2", "NONE, and nothing is done, when n is not 1 .. 8,");
         for (Run x : new Run[] {new Run(), typed("6162")}) {
             for (int n : new int[] {-1, 0, 9, 10, 16, 64, -8, FAR[0], FAR[1]}) {
                 refused("type(97, " + n + ")", x, y -> y.type(97, n));
@@ -110,7 +113,7 @@ final class PromisesMakingTest {
     }
 
     private static void typedUpTo1000() {
-        Probe.sentence("or there would be more than 1000.");
+        Probe.sentence("Promise 2", "or there would be more than 1000.");
         for (int n = 1; n <= 8; n++) {
             int some = n;
             Run x = typed(Probe.times("61", 1000 - n));
@@ -128,8 +131,9 @@ final class PromisesMakingTest {
     }
 
     private static void oneValueMore() {
-        Probe.sentence("One value more in the document that is made: null (kind 0), false (1), true (2), the typed text"
-            + " (3), the typed bytes (4), an array (5), an object (6) that are open then: how many items it has.");
+        Probe.sentence("Promise 3", "One value more in the document that is made: null (kind 0), false (1),"
+            + " true (2), the typed text (3), the typed bytes (4), an array (5), an object (6) that are open"
+            + " then: how many items it has.");
         String[] items = {"0n", "0f", "0t", "0s61", "0b61", "0[", "0{"};
         for (int kind = 0; kind <= 6; kind++) {
             Run x = typed("61");
@@ -147,7 +151,7 @@ final class PromisesMakingTest {
     }
 
     private static void typedBytesAreNoneThen() {
-        Probe.sentence("The typed bytes are none then (for 3 and 4).");
+        Probe.sentence("Promise 3", "The typed bytes are none then (for 3 and 4).");
         for (int kind = 0; kind <= 6; kind++) {
             Run x = typed("6162");
             x.value(kind);
@@ -164,7 +168,7 @@ final class PromisesMakingTest {
     }
 
     private static void noSuchKind() {
-        Probe.sentence("NONE, and nothing is done, when there is no such kind,");
+        Probe.sentence("Promise 3", "NONE, and nothing is done, when there is no such kind,");
         Run open = typed("61");
         open.value(5);
         for (Run x : new Run[] {typed("61"), open}) {
@@ -186,7 +190,7 @@ final class PromisesMakingTest {
     }
 
     private static void wholeDocuments() {
-        Probe.sentence("the document is whole,");
+        Probe.sentence("Promise 3", "the document is whole,");
         for (int kind = 0; kind <= 6; kind++) {
             Run x = new Run();
             x.value(kind);
@@ -209,7 +213,7 @@ final class PromisesMakingTest {
     }
 
     private static void aNameMustCome() {
-        Probe.sentence("a name must come,");
+        Probe.sentence("Promise 3", "a name must come,");
         Run x = typed("61");
         x.value(6);
         noValueMayCome("before a name", x);
@@ -229,7 +233,7 @@ final class PromisesMakingTest {
     }
 
     private static void bytesThatAreNoText() {
-        Probe.sentence("the bytes are no text,");
+        Probe.sentence("Promise 3", "the bytes are no text,");
         for (String hex : new String[] {"80", "61C3", "C080", "EDA080", "F4908080", "FF"}) {
             Run x = typed(hex);
             refused("value(3) of " + hex, x, y -> y.value(3));
@@ -244,7 +248,7 @@ final class PromisesMakingTest {
     }
 
     private static void tooManyWithinEachOther() {
-        Probe.sentence("or it would have too many items, bytes, or within each other.");
+        Probe.sentence("Promise 3", "or it would have too many items, bytes, or within each other.");
         Run x = new Run();
         for (int k = 1; k <= 30; k++) {
             Probe.due("value(5)", x.value(5), k);
@@ -261,8 +265,82 @@ final class PromisesMakingTest {
         Probe.due("value(0)", x.value(0), 39);
     }
 
+    // No 512 calls reach 1500 items or 5000 bytes by making. Behind them all answers are free; this class
+    // keeps to the same limits there, and so is tested there.
+
+    private static void tooManyItems() {
+        Probe.sentence("Promise 3", "or it would have too many items, bytes, or within each other.");
+        GrinCoder x = new GrinCoder();
+        x.value(6);
+        x.name();
+        x.value(5);
+        for (int k = 4; k <= 1498; k++) {
+            Probe.due("value", x.value(0), k);
+        }
+        Probe.due("end(), item 1499", x.end(), 1499);
+        x.type(0x61, 1);
+        Probe.due("name(), item 1500", x.name(), 1500);
+        x.type(0x61, 1);
+        for (int kind = 0; kind <= 6; kind++) {
+            Probe.due("value(" + kind + "), item 1501", x.value(kind), NONE);
+        }
+        Probe.due("integer(0), item 1501", x.integer(0), NONE);
+        Probe.due("real(0, 0), item 1501", x.real(0, 0), NONE);
+        Probe.due("real(0, 1), item 1501", x.real(0, 1), NONE);
+        Probe.due("still typed", x.count(3), 1);
+        Probe.due("drop()", x.drop(), 1500);
+        x.value(5);
+        x.value(6);
+        for (int k = 4; k <= 1500; k += 2) {
+            x.name();
+            Probe.due("value", x.value(0), k);
+        }
+        Probe.due("name(), item 1501", x.name(), NONE);
+        Probe.due("end(), item 1501", x.end(), NONE);
+        Probe.due("drop()", x.drop(), 1500);
+    }
+
+    private static void tooManyBytes() {
+        Probe.sentence("Promise 3", "or it would have too many items, bytes, or within each other.");
+        for (int last = 3; last <= 5; last++) {
+            GrinCoder x = new GrinCoder();
+            x.value(6);
+            for (int k = 0; k < 5; k++) {
+                x.name();
+                typeMany(x, k == 4 ? 992 : 1000);
+                x.value(3 + k % 2);
+            }
+            Probe.due("bytes", x.count(2), 4992);
+            if (last != 5) {
+                x.name();
+            }
+            x.type(0x6161616161616161L, 8);
+            x.type(0x61, 1);
+            Probe.due("9 bytes more", last == 5 ? x.name() : x.value(last), NONE);
+            Probe.due("still typed", x.count(3), 9);
+            Probe.due("still 4992", x.count(2), 4992);
+        }
+        GrinCoder x = new GrinCoder();
+        x.value(5);
+        for (int k = 1; k <= 5; k++) {
+            typeMany(x, 1000);
+            Probe.due("1000 bytes", x.value(4), k + 1);
+        }
+        Probe.due("bytes", x.count(2), 5000);
+        Probe.due("none more", x.value(4), 7);
+        x.type(0x61, 1);
+        Probe.due("one more", x.value(4), NONE);
+        Probe.due("one more", x.value(3), NONE);
+    }
+
+    private static void typeMany(GrinCoder x, int bytes) {
+        for (int k = 0; k < bytes; k += 8) {
+            x.type(0x6161616161616161L, 8);
+        }
+    }
+
     private static void integers() {
-        Probe.sentence("An integer likewise.");
+        Probe.sentence("Promise 4", "An integer likewise.");
         Run x = typed("61");
         x.value(5);
         long[] numbers = {Long.MIN_VALUE, -1, 0, 1, Long.MAX_VALUE};
@@ -282,7 +360,7 @@ final class PromisesMakingTest {
     }
 
     private static void reals() {
-        Probe.sentence("A real of 32 bits (wide 0) or 64 (1) likewise;");
+        Probe.sentence("Promise 5", "A real of 32 bits (wide 0) or 64 (1) likewise;");
         Run x = typed("61");
         x.value(5);
         Probe.due("real(1, 0)", x.real(1, 0), 2);
@@ -302,7 +380,7 @@ final class PromisesMakingTest {
     }
 
     private static void noSuchWidth() {
-        Probe.sentence("NONE also when there is no such width,");
+        Probe.sentence("Promise 5", "NONE also when there is no such width,");
         Run x = new Run();
         x.value(5);
         for (int wide : new int[] {-1, 2, 3, 32, 64, FAR[0], FAR[1]}) {
@@ -313,7 +391,7 @@ final class PromisesMakingTest {
     }
 
     private static void tooManyBits() {
-        Probe.sentence("or for 32 bits more than these are told.");
+        Probe.sentence("Promise 5", "or for 32 bits more than these are told.");
         Run x = new Run();
         x.value(5);
         for (long bits : new long[] {1L << 32, (1L << 32) + 1, 1L << 62, Long.MAX_VALUE, Long.MIN_VALUE, -1}) {
@@ -327,7 +405,7 @@ final class PromisesMakingTest {
     }
 
     private static void names() {
-        Probe.sentence("The typed text is the name of the next part likewise.");
+        Probe.sentence("Promise 6", "The typed text is the name of the next part likewise.");
         Run x = new Run();
         x.value(6);
         Probe.due("name", x.name("C3A9"), 2);
@@ -344,7 +422,7 @@ final class PromisesMakingTest {
     }
 
     private static void namesWhenNoneCanCome() {
-        Probe.sentence("NONE when none can come,");
+        Probe.sentence("Promise 6", "NONE when none can come,");
         Run x = typed("61");
         refused("name() without a document", x, Run::name);
         x.value(5);
@@ -366,7 +444,7 @@ final class PromisesMakingTest {
     }
 
     private static void namesAsAbove() {
-        Probe.sentence("and as above.");
+        Probe.sentence("Promise 6", "and as above.");
         for (String hex : new String[] {"80", "61C3", "C080", "EDA080", "F4908080", "FF"}) {
             Run x = typed(hex);
             x.value(6);
@@ -375,7 +453,7 @@ final class PromisesMakingTest {
     }
 
     private static void ends() {
-        Probe.sentence("The innermost open array or object ends likewise.");
+        Probe.sentence("Promise 7", "The innermost open array or object ends likewise.");
         Run x = typed("61");
         x.value(6);
         x.name();
@@ -402,7 +480,7 @@ final class PromisesMakingTest {
     }
 
     private static void endsOfNone() {
-        Probe.sentence("NONE when there is none,");
+        Probe.sentence("Promise 7", "NONE when there is none,");
         Run x = typed("61");
         refused("end() without a document", x, Run::end);
         for (int kind = 0; kind <= 6; kind++) {
@@ -418,7 +496,7 @@ final class PromisesMakingTest {
     }
 
     private static void endsWhenAValueMustCome() {
-        Probe.sentence("or a value must come.");
+        Probe.sentence("Promise 7", "or a value must come.");
         Run x = new Run();
         x.value(6);
         Probe.due("before a name", x.copy().end(), 2);
@@ -431,7 +509,7 @@ final class PromisesMakingTest {
     }
 
     private static void drops() {
-        Probe.sentence("The document is no more: how many items it had.");
+        Probe.sentence("Promise 8", "The document is no more: how many items it had.");
         Run x = new Run();
         Probe.due("none", x.drop(), 0);
         x.value(6);
@@ -464,7 +542,7 @@ final class PromisesMakingTest {
     }
 
     private static void dropsLeaveTheRest() {
-        Probe.sentence("The document is no more: how many items it had.");
+        Probe.sentence("Promise 8", "The document is no more: how many items it had.");
         Run x = new Run();
         x.reads(0, "FF");
         x.integer(1);
@@ -483,7 +561,7 @@ final class PromisesMakingTest {
     }
 
     private static void calls512() {
-        Probe.sentence("An object is used for at most 512 calls after it has been made;");
+        Probe.sentence("What it is", "An object is used for at most 512 calls after it has been made;");
         GrinCoder x = new GrinCoder();
         x.value(5);
         for (int call = 2; call <= 512; call++) {

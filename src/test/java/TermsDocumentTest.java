@@ -59,7 +59,7 @@ final class TermsDocumentTest {
     }
 
     private static void textsAreUtf8() {
-        Probe.sentence("TEXTS are bytes: UTF-8 of characters");
+        Probe.sentence("Terms", "TEXTS are bytes: UTF-8 of characters");
         areTexts("", "00", "61", "C3A9", "E282AC", "F09F9880", "C3A9E282ACF09F9880");
         // One byte too few, a byte that goes on with nothing, and one that does not go on.
         areNoTexts("C3", "E2", "E282", "F0", "F09F", "F09F98", "80", "BF", "C3A9A9", "E282AC80", "F09F988080");
@@ -72,25 +72,25 @@ final class TermsDocumentTest {
     }
 
     private static void upTo10FFFF() {
-        Probe.sentence("(up to 10FFFF,");
+        Probe.sentence("Terms", "(up to 10FFFF,");
         areTexts("F3BFBFBF", "F4808080", "F48FBFBF");
         areNoTexts("F4908080", "F4BFBFBF", "F5808080", "F7BFBFBF", "F8888080", "F888808080");
     }
 
     private static void noneOfD800() {
-        Probe.sentence("none of D800 .. DFFF,");
+        Probe.sentence("Terms", "none of D800 .. DFFF,");
         areTexts("ECBFBF", "ED8080", "ED9FBF", "EE8080");
         areNoTexts("EDA080", "EDAFBF", "EDB080", "EDBFBF", "EDA080EDB080");
     }
 
     private static void asShortAsCanBe() {
-        Probe.sentence("each as short as it can be)");
+        Probe.sentence("Terms", "each as short as it can be)");
         areTexts("7F", "C280", "DFBF", "E0A080", "EFBFBF", "F0908080");
         areNoTexts("C080", "C0BF", "C180", "C1BF", "E08080", "E09FBF", "F0808080", "F08FBFBF");
     }
 
     private static void asciiBelow128() {
-        Probe.sentence("ASCII, if all are below 128.");
+        Probe.sentence("Terms", "ASCII, if all are below 128.");
         Run ascii = new Run();
         ascii.text("7F7F");
         Probe.due("127, written", ascii.writes(0), "417F7F");
@@ -111,7 +111,7 @@ final class TermsDocumentTest {
     }
 
     private static void integersAreLongs() {
-        Probe.sentence("INTEGERS (longs)");
+        Probe.sentence("Terms", "INTEGERS (longs)");
         Run x = new Run();
         x.value(5);
         long[] edges = {0, -1, 1, Integer.MAX_VALUE, Integer.MIN_VALUE, Integer.MAX_VALUE + 1L, Integer.MIN_VALUE - 1L,
@@ -129,7 +129,7 @@ final class TermsDocumentTest {
     }
 
     private static void realsOfTwoWidths() {
-        Probe.sentence("REALS of 32 or 64 bits (their bits as a number)");
+        Probe.sentence("Terms", "REALS of 32 or 64 bits (their bits as a number)");
         Run x = new Run();
         x.value(5);
         long[] narrow = {0, 1, 0x7FC00000L, 0x80000000L, 0xFFFFFFFFL};
@@ -151,7 +151,7 @@ final class TermsDocumentTest {
     }
 
     private static void arraysOfValues() {
-        Probe.sentence("an ARRAY of values;");
+        Probe.sentence("Terms", "an ARRAY of values;");
         Run x = new Run();
         Probe.due("an array", x.value(5), 1);
         Probe.due("a name in it", x.name("61"), NONE);
@@ -162,7 +162,7 @@ final class TermsDocumentTest {
     }
 
     private static void objectsOfParts() {
-        Probe.sentence("an OBJECT of parts, each a NAME, a text, and a value");
+        Probe.sentence("Terms", "an OBJECT of parts, each a NAME, a text, and a value");
         Run x = new Run();
         Probe.due("an object", x.value(6), 1);
         Probe.due("a value without a name", x.value(0), NONE);
@@ -177,7 +177,7 @@ final class TermsDocumentTest {
     }
 
     private static void namesMayBeTheSame() {
-        Probe.sentence("(names may be the same)");
+        Probe.sentence("Terms", "(names may be the same)");
         Run x = new Run();
         x.value(6);
         for (int k = 0; k < 3; k++) {
@@ -190,7 +190,7 @@ final class TermsDocumentTest {
     }
 
     private static void oneValue() {
-        Probe.sentence("A DOCUMENT is one value;");
+        Probe.sentence("Terms", "A DOCUMENT is one value;");
         Run x = new Run();
         Probe.due("one", x.integer(1), 1);
         Probe.due("two", x.integer(2), NONE);
@@ -200,7 +200,7 @@ final class TermsDocumentTest {
     }
 
     private static void withinEachOther() {
-        Probe.sentence("at most 30 arrays and objects are within each other;");
+        Probe.sentence("Terms", "at most 30 arrays and objects are within each other;");
         Run x = new Run();
         for (int k = 1; k <= 30; k++) {
             Probe.due(k + " within each other", x.value(k % 2 == 0 ? 5 : 6), k + k / 2);
@@ -235,7 +235,7 @@ final class TermsDocumentTest {
     }
 
     private static void withinEachOtherRead() {
-        Probe.sentence("at most 30 arrays and objects are within each other;");
+        Probe.sentence("Terms", "at most 30 arrays and objects are within each other;");
         Probe.due("30, read", new Run().reads(0, Probe.times("F8", 30) + Probe.times("F9", 30)), 0);
         Probe.due("31, read", new Run().reads(0, Probe.times("F8", 31) + Probe.times("F9", 31)), 7);
         String parts = Probe.times("FA20", 30);
@@ -247,7 +247,7 @@ final class TermsDocumentTest {
     }
 
     private static void items() {
-        Probe.sentence("it has at most 1500 ITEMS:");
+        Probe.sentence("Terms", "it has at most 1500 ITEMS:");
         Run most = Run.of(0, "F8" + Probe.times("21", 1498) + "F9");
         Probe.due("items", most.count(0), 1500);
         Probe.due("last item", most.item(1499, 0), 11);
@@ -264,7 +264,7 @@ final class TermsDocumentTest {
     }
 
     private static void itemsOfEachSort() {
-        Probe.sentence("each value, each name, each end of an array or object, in order.");
+        Probe.sentence("Terms", "each value, each name, each end of an array or object, in order.");
         Probe.due("in order", Run.of(0, "F8 21 FA 8061 F8 F9 FB C0 F9").items(), "0[ 1n 1{ 2k61 2[ 2] 1] 1i0 0]");
         Run names = Run.of(0, "FA" + Probe.times("2021", 749) + "FB");
         Probe.due("1500 with names", names.count(0), 1500);
@@ -287,10 +287,10 @@ final class TermsDocumentTest {
     }
 
     private static void bytesOfAll() {
-        Probe.sentence("All its texts and bytes (each time) have at most 5000 bytes.");
-        String[] fit = {"476162636465666768", "E06162636465666768FC", "80C3A9" + "82C3A9C3A9" + "4161" + "62",
+        Probe.sentence("Terms", "All its texts and bytes (each time) have at most 5000 bytes.");
+        String[] fit = {"476162636465666768", "E06162636465666768FC", "80C3A9" + "82C3A9C3A9" + "416162",
             "E888" + Probe.times("00", 10), "FD88" + Probe.times("00", 8), "FA876162636465666768" + "21FB",
-            "FA8361626364" + "FD8401020304" + "FB", "4761626364656667" + "68" + "20E880FD80FA2020FB"};
+            "FA8361626364" + "FD8401020304" + "FB", "476162636465666768" + "20E880FD80FA2020FB"};
         String[] tooLong = {"48616263646566676869", "E0616263646566676869FC", "80C3A9" + "82C3A9C3A9" + "42616263",
             "E889" + Probe.times("00", 11), "FD89" + Probe.times("00", 9), "FA88616263646566676869" + "21FB",
             "FA8361626364" + "FD850102030405" + "FB", "476162636465666768" + "4061"};
@@ -304,7 +304,7 @@ final class TermsDocumentTest {
     }
 
     private static void bytesEachTime() {
-        Probe.sentence("(each time)");
+        Probe.sentence("Terms", "(each time)");
         // Texts and names that are told by places count as if they stood there.
         String text = "67" + Probe.times("61", 40);
         Probe.due("5000 bytes", Run.of(3, "F8" + text + Probe.times("01", 124) + "F9").count(2), 5000);
@@ -321,7 +321,7 @@ final class TermsDocumentTest {
     }
 
     private static void bytesOfAllMade() {
-        Probe.sentence("All its texts and bytes (each time) have at most 5000 bytes.");
+        Probe.sentence("Terms", "All its texts and bytes (each time) have at most 5000 bytes.");
         // Making can't reach the limit in 512 calls: it must not be met before.
         Run x = new Run();
         x.value(6);

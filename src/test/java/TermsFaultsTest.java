@@ -48,7 +48,7 @@ final class TermsFaultsTest {
     }
 
     private static void firstOneMet() {
-        Probe.sentence("FAULTS, the first one met:");
+        Probe.sentence("Terms", "FAULTS, the first one met:");
         faultOfAll("3A2A0A08FF", 1, 1);
         fault(0, "F8 4080 00", 4, 5);
         fault(0, "F8 00 4080", 3, 5);
@@ -63,7 +63,7 @@ final class TermsFaultsTest {
     }
 
     private static void head() {
-        Probe.sentence("1 one of the first four bytes is another one, or missing;");
+        Probe.sentence("Terms", "1 one of the first four bytes is another one, or missing;");
         int[] right = {0x3A, 0x29, 0x0A};
         for (int k = 0; k < 3; k++) {
             for (int b = 0; b <= 255; b++) {
@@ -91,7 +91,7 @@ final class TermsFaultsTest {
     }
 
     private static void bytesEnd() {
-        Probe.sentence("2 the bytes end;");
+        Probe.sentence("Terms", "2 the bytes end;");
         // Every form of every item: cut anywhere, the bytes end there.
         String all = Probe.plainHex("FA 20 21 8061 22 C1C3A961 23 3461FC C5 40 249F 3001 250181 42 280102030405"
             + "816263 2901020304050607080900 8063 F8 20 4061 60" + Probe.times("62", 33) + "80C3A9 A0"
@@ -104,7 +104,7 @@ final class TermsFaultsTest {
     }
 
     private static void bytesEndInEachItem() {
-        Probe.sentence("2 the bytes end;");
+        Probe.sentence("Terms", "2 the bytes end;");
         fault(0, "", 2, 4);
         String[] rows = {"24 01 02 03 04", "25 00 00 00 00 00 00 00 00 00", "28 00 00 00 00", "29 00 00 00 00 00 00 00 00 00",
             "40", "5F" + Probe.times("61", 31), "60" + Probe.times("61", 32), "7F" + Probe.times("61", 63), "80 61",
@@ -150,7 +150,7 @@ final class TermsFaultsTest {
     }
 
     private static void bytesThatCantStandThere() {
-        Probe.sentence("3 a byte that can't stand there:");
+        Probe.sentence("Terms", "3 a byte that can't stand there:");
         for (int flags = 0; flags <= ALL_FLAGS; flags++) {
             for (int b = 0; b <= 255; b++) {
                 stands(flags, "", b, isValueSign(b, flags));
@@ -165,7 +165,7 @@ final class TermsFaultsTest {
     }
 
     private static void endsThatCantStandThere() {
-        Probe.sentence("3 a byte that can't stand there:");
+        Probe.sentence("Terms", "3 a byte that can't stand there:");
         fault(0, "F9", 3, 4);
         fault(0, "FB", 3, 4);
         fault(0, "F8 FB", 3, 5);
@@ -185,7 +185,7 @@ final class TermsFaultsTest {
     };
 
     private static void inACount() {
-        Probe.sentence("also one of C0 or more in a count,");
+        Probe.sentence("Terms", "also one of C0 or more in a count,");
         for (String[] count : COUNTS) {
             for (int n = 0; n <= count[1].length(); n += 2) {
                 String before = count[0] + count[1].substring(0, n);
@@ -205,7 +205,7 @@ final class TermsFaultsTest {
     }
 
     private static void atACountsLastPlace() {
-        Probe.sentence("or one below 80 at a count's last place;");
+        Probe.sentence("Terms", "or one below 80 at a count's last place;");
         for (String[] count : COUNTS) {
             String before = count[0] + count[1];
             int last = 4 + before.length() / 2;
@@ -225,7 +225,7 @@ final class TermsFaultsTest {
     }
 
     private static void amongBits() {
-        Probe.sentence("one of 80 or more among bits;");
+        Probe.sentence("Terms", "one of 80 or more among bits;");
         String[] signs = {"28", "29", "E887", "E885"};
         int[] bytes = {5, 10, 8, 6};
         for (int k = 0; k < signs.length; k++) {
@@ -244,7 +244,7 @@ final class TermsFaultsTest {
     }
 
     private static void placesWithoutTheirFlag() {
-        Probe.sentence("a place in a table whose flag is not set;");
+        Probe.sentence("Terms", "a place in a table whose flag is not set;");
         for (int flags = 0; flags <= ALL_FLAGS; flags++) {
             boolean names = (flags & 1) != 0;
             boolean texts = (flags & 2) != 0;
@@ -263,7 +263,7 @@ final class TermsFaultsTest {
     }
 
     private static void rawWithoutItsFlag() {
-        Probe.sentence("FD without its flag;");
+        Probe.sentence("Terms", "FD without its flag;");
         for (int flags = 0; flags <= ALL_FLAGS; flags++) {
             boolean raw = (flags & 4) != 0;
             fault(flags, "FD81FF", raw ? 0 : 3, raw ? GrinCoder.NONE : 4);
@@ -273,7 +273,7 @@ final class TermsFaultsTest {
     }
 
     private static void whenAllBytesAreThere() {
-        Probe.sentence("then, when all bytes of an item are there,");
+        Probe.sentence("Terms", "then, when all bytes of an item are there,");
         fault(0, "41 80", 2, 6);
         fault(0, "41 80 61", 4, 4);
         fault(0, "E0 80", 2, 6);
@@ -296,7 +296,7 @@ final class TermsFaultsTest {
     }
 
     private static void noSuchText() {
-        Probe.sentence("4 bytes that are no such text,");
+        Probe.sentence("Terms", "4 bytes that are no such text,");
         good(0, "80 C3A9");
         fault(0, "80 C3C3", 4, 4);
         fault(0, "9F" + Probe.times("61", 32) + "80", 4, 4);
@@ -316,7 +316,7 @@ final class TermsFaultsTest {
     }
 
     private static void notAscii() {
-        Probe.sentence("or not ASCII;");
+        Probe.sentence("Terms", "or not ASCII;");
         String before = Probe.times("61", 31);
         good(0, "5F" + before + "7F");
         fault(0, "5F" + before + "80", 4, 4);
@@ -331,7 +331,7 @@ final class TermsFaultsTest {
     }
 
     private static void placesWithNothing() {
-        Probe.sentence("5 a place at which nothing is,");
+        Probe.sentence("Terms", "5 a place at which nothing is,");
         fault(2, "01", 5, 4);
         fault(2, "1F", 5, 4);
         good(2, "F8 4061 01 F9");
@@ -355,7 +355,7 @@ final class TermsFaultsTest {
     }
 
     private static void placesThatCantBeTold() {
-        Probe.sentence("or that can't be told;");
+        Probe.sentence("Terms", "or that can't be told;");
         String texts = "F8" + Probe.times("4061", 1024);
         int place = 4 + 1 + 2 * 1024;
         for (String high : new String[] {"EC", "ED", "EE", "EF"}) {
@@ -374,7 +374,7 @@ final class TermsFaultsTest {
     }
 
     private static void countsOfTooManyBits() {
-        Probe.sentence("6 a count of more than 32 bits (25: 64),");
+        Probe.sentence("Terms", "6 a count of more than 32 bits (25: 64),");
         good(0, "24 1F 7F 7F 7F BF");
         fault(0, "24 20 00 00 00 80", 6, 4);
         fault(0, "24 7F 7F 7F 7F BF", 6, 4);
@@ -387,7 +387,7 @@ final class TermsFaultsTest {
     }
 
     private static void countsOfBytesWithTooManyBits() {
-        Probe.sentence("6 a count of more than 32 bits (25: 64),");
+        Probe.sentence("Terms", "6 a count of more than 32 bits (25: 64),");
         // So many bytes can't be loaded: the item's bytes end before its count is looked at.
         fault(0, "E8 20 00 00 00 80 00", 2, 11);
         fault(0, "E8 7F 7F 7F 7F BF 00", 2, 11);
@@ -397,7 +397,7 @@ final class TermsFaultsTest {
     }
 
     private static void realsOfTooManyBits() {
-        Probe.sentence("bits of a real over its 32 or 64,");
+        Probe.sentence("Terms", "bits of a real over its 32 or 64,");
         good(0, "28 0F 7F 7F 7F 7F");
         fault(0, "28 10 00 00 00 00", 6, 4);
         fault(0, "28 20 00 00 00 00", 6, 4);
@@ -409,7 +409,7 @@ final class TermsFaultsTest {
     }
 
     private static void bitsThatAreLeft() {
-        Probe.sentence("or others than those that are left in the last byte of bits;");
+        Probe.sentence("Terms", "or others than those that are left in the last byte of bits;");
         for (int n = 1; n <= 16; n++) {
             int bytes = (8 * n + 6) / 7;
             int left = 8 * n - 7 * (bytes - 1);
@@ -423,7 +423,7 @@ final class TermsFaultsTest {
     }
 
     private static void roomWhenAllBytesAreThere() {
-        Probe.sentence("7, when all bytes of the item are there,");
+        Probe.sentence("Terms", "7, when all bytes of the item are there,");
         String items = "F8" + Probe.times("21", 1499);
         fault(0, items, 2, 1504);
         fault(0, items + "40", 2, 1505);
@@ -447,7 +447,7 @@ final class TermsFaultsTest {
     }
 
     private static void roomWhenNoneOf4To6Is() {
-        Probe.sentence("and none of 4 to 6 is:");
+        Probe.sentence("Terms", "and none of 4 to 6 is:");
         String items = "F8" + Probe.times("21", 1499);
         fault(0, items + "4080", 4, 1504);
         fault(0, items + "E080FC", 4, 1504);
@@ -469,7 +469,7 @@ final class TermsFaultsTest {
     }
 
     private static void noRoom() {
-        Probe.sentence("the document would have more items, bytes, or within each other;");
+        Probe.sentence("Terms", "the document would have more items, bytes, or within each other;");
         good(0, "F8" + Probe.times("21", 1498) + "F9");
         fault(0, "F8" + Probe.times("21", 1499) + "F9", 7, 4 + 1500);
         int behind = 4 + nearlyFull().length() / 2;
@@ -485,7 +485,7 @@ final class TermsFaultsTest {
     }
 
     private static void bytesBehind() {
-        Probe.sentence("8 a byte behind the value.");
+        Probe.sentence("Terms", "8 a byte behind the value.");
         for (int b = 0; b <= 255; b++) {
             fault(ALL_FLAGS, "21" + Probe.hex(b), 8, 5);
         }

@@ -36,7 +36,7 @@ final class TermsReadTest {
     }
 
     private static void allThatIsWritten() {
-        Probe.sentence("READ is all of this,");
+        Probe.sentence("Terms", "READ is all of this,");
         Run x = new Run();
         x.value(6);
         x.name("C3A9");
@@ -66,7 +66,7 @@ final class TermsReadTest {
     }
 
     private static void smallIntegers() {
-        Probe.sentence("a small integer as 24 or 25,");
+        Probe.sentence("Terms", "a small integer as 24 or 25,");
         for (int v = -17; v <= 16; v++) {
             String count = Probe.hex(0x80 + (v >= 0 ? 2 * v : -2 * v - 1));
             tells(0, "24" + count, "0i" + v);
@@ -80,7 +80,7 @@ final class TermsReadTest {
     }
 
     private static void textsAsLongOnes() {
-        Probe.sentence("a text as E0, E4,");
+        Probe.sentence("Terms", "a text as E0, E4,");
         for (int n : new int[] {1, 2, 32, 33, 34, 64, 65}) {
             String ascii = Probe.times("61", n);
             tells(0, "E0" + ascii + "FC", "0s" + ascii);
@@ -92,7 +92,7 @@ final class TermsReadTest {
     }
 
     private static void emptyTexts() {
-        Probe.sentence("(the empty one as E0, E4, too),");
+        Probe.sentence("Terms", "(the empty one as E0, E4, too),");
         tells(0, "20", "0s");
         tells(0, "E0FC", "0s");
         tells(0, "E4FC", "0s");
@@ -100,7 +100,7 @@ final class TermsReadTest {
     }
 
     private static void textsAsOthers() {
-        Probe.sentence("80, A0");
+        Probe.sentence("Terms", "80, A0");
         for (int n = 2; n <= 33; n++) {
             String ascii = Probe.times("61", n);
             tells(0, Probe.hex(0x80 + n - 2) + ascii, "0s" + ascii);
@@ -110,7 +110,7 @@ final class TermsReadTest {
             tells(0, Probe.hex(0xA0 + n - 34) + ascii, "0s" + ascii);
         }
         fails(0, "BF" + Probe.times("61", 65), 3, 4);
-        Probe.sentence("if it can be that;");
+        Probe.sentence("Terms", "if it can be that;");
         fails(0, "81 61 61", 2, 7);
         fails(0, "40 80", 4, 4);
         fails(0, "41 C3 A9", 4, 4);
@@ -118,7 +118,7 @@ final class TermsReadTest {
     }
 
     private static void namesAsOthers() {
-        Probe.sentence("a name as C0, 34");
+        Probe.sentence("Terms", "a name as C0, 34");
         for (int n = 2; n <= 57; n++) {
             String ascii = Probe.times("61", n);
             tells(0, "FA" + Probe.hex(0xC0 + n - 2) + ascii + "21FB", "0{ 1k" + ascii + " 1n 0]");
@@ -128,7 +128,7 @@ final class TermsReadTest {
     }
 
     private static void namesAsLongOnes() {
-        Probe.sentence("a name as C0, 34");
+        Probe.sentence("Terms", "a name as C0, 34");
         for (int n : new int[] {1, 2, 57, 58, 64, 65}) {
             String ascii = Probe.times("61", n);
             tells(0, "FA34" + ascii + "FC21FB", "0{ 1k" + ascii + " 1n 0]");
@@ -138,12 +138,12 @@ final class TermsReadTest {
     }
 
     private static void emptyNames() {
-        Probe.sentence("(the empty one as 34, too),");
+        Probe.sentence("Terms", "(the empty one as 34, too),");
         tells(1, "FA 20 21 34FC 21 FB", "0{ 1k 1n 1k 1n 0]");
     }
 
     private static void inFull() {
-        Probe.sentence("in full, what could be told by a place;");
+        Probe.sentence("Terms", "in full, what could be told by a place;");
         tells(3, "FA 8061 4062 8061 4062 FB", "0{ 1k61 1s62 1k61 1s62 0]");
         // Each time it takes a place of its own, and each of these can be told.
         tells(2, "F8 4061 4061 4062 01 02 03 F9", "0[ 1s61 1s61 1s62 1s61 1s61 1s62 0]");
@@ -169,7 +169,7 @@ final class TermsReadTest {
     }
 
     private static void placesInTwoBytes() {
-        Probe.sentence("a place below 64 or 31 in two bytes;");
+        Probe.sentence("Terms", "a place below 64 or 31 in two bytes;");
         Run x = Run.of(2, "F8" + texts(32) + "01 EC00 1F EC1E EC1F F9");
         int[] places = {0, 0, 30, 30, 31};
         for (int k = 0; k < places.length; k++) {
@@ -183,7 +183,7 @@ final class TermsReadTest {
     }
 
     private static void countsWith0Before() {
-        Probe.sentence("counts with 0 before them.");
+        Probe.sentence("Terms", "counts with 0 before them.");
         tells(0, "24 00 A0", "0i16");
         tells(0, "24 00 00 00 00 A0", "0i16");
         tells(0, "24 00 00 00 01 80", "0i32");
@@ -199,7 +199,7 @@ final class TermsReadTest {
     }
 
     private static void bytesOfCounts() {
-        Probe.sentence("A count has at most 5 bytes (that of 25: 10).");
+        Probe.sentence("Terms", "A count has at most 5 bytes (that of 25: 10).");
         tells(0, "24 00 00 00 00 A0", "0i16");
         fails(0, "24 00 00 00 00 00 A0", 3, 9);
         tells(0, "E8 00 00 00 00 81 7F 01", "0bFF");
@@ -212,7 +212,7 @@ final class TermsReadTest {
     }
 
     private static void tablesOfTexts() {
-        Probe.sentence("What is read in full comes into the tables just as what is written so.");
+        Probe.sentence("Terms", "What is read in full comes into the tables just as what is written so.");
         tells(2, "F8 E061FC E462FC 806363 4064 01 02 03 04 F9",
             "0[ 1s61 1s62 1s6363 1s64 1s61 1s62 1s6363 1s64 0]");
         String most = Probe.times("61", 64);
@@ -236,7 +236,7 @@ final class TermsReadTest {
     }
 
     private static void tablesOfNames() {
-        Probe.sentence("What is read in full comes into the tables just as what is written so.");
+        Probe.sentence("Terms", "What is read in full comes into the tables just as what is written so.");
         tells(1, "FA 3461FC 21 C06262 21 8063 21 40 21 41 21 42 21 FB",
             "0{ 1k61 1n 1k6262 1n 1k63 1n 1k61 1n 1k6262 1n 1k63 1n 0]");
         String[] most = {Probe.times("61", 64), Probe.times("C3A9", 32), Probe.times("C3A9", 29)};
@@ -253,7 +253,7 @@ final class TermsReadTest {
     }
 
     private static void tablesWithoutFlags() {
-        Probe.sentence("What is read in full comes into the tables just as what is written so.");
+        Probe.sentence("Terms", "What is read in full comes into the tables just as what is written so.");
         // With one flag alone, only its table is filled.
         tells(1, "FA 8061 4062 40 4062 FB", "0{ 1k61 1s62 1k61 1s62 0]");
         tells(2, "FA 8061 4062 8061 01 FB", "0{ 1k61 1s62 1k61 1s62 0]");
@@ -262,7 +262,7 @@ final class TermsReadTest {
     }
 
     private static void tablesAreEmptied() {
-        Probe.sentence("What is read in full comes into the tables just as what is written so.");
+        Probe.sentence("Terms", "What is read in full comes into the tables just as what is written so.");
         Run last = Run.of(2, "F8" + texts(1024) + "01 EFFD F9");
         Probe.due("place 0 when there are 1024", last.bytesOf(1025), Probe.twoBytes(0));
         Probe.due("place 1021 when there are 1024", last.bytesOf(1026), Probe.twoBytes(1021));

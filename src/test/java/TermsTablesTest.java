@@ -38,7 +38,7 @@ final class TermsTablesTest {
     }
 
     private static void emptyAtFirst() {
-        Probe.sentence("TABLES, empty at first,");
+        Probe.sentence("Terms", "TABLES, empty at first,");
         Run x = array("61", "61");
         Probe.due("written", x.writes(2), "F8406101F9");
         Probe.due("written again", x.writes(2), "F8406101F9");
@@ -58,7 +58,7 @@ final class TermsTablesTest {
     }
 
     private static void namesAndTexts() {
-        Probe.sentence("one of names, one of texts that are values:");
+        Probe.sentence("Terms", "one of names, one of texts that are values:");
         Run x = new Run();
         x.value(6);
         for (String hex : new String[] {"61", "62", "61"}) {
@@ -80,7 +80,7 @@ final class TermsTablesTest {
     }
 
     private static void withItsFlag() {
-        Probe.sentence("with its flag");
+        Probe.sentence("Terms", "with its flag");
         Run x = new Run();
         x.value(6);
         for (int k = 0; k < 2; k++) {
@@ -96,8 +96,8 @@ final class TermsTablesTest {
     }
 
     private static void textsOf1To64() {
-        Probe.sentence("each one of 1 .. 64 bytes that is written in full is put behind all in its table (at place 0, 1,"
-            + " ..);");
+        Probe.sentence("Terms", "each one of 1 .. 64 bytes that is written in full is put behind all in its"
+            + " table (at place 0, 1, ..);");
         String ascii = Probe.times("61", 64);
         String other = Probe.times("C3A9", 32);
         String tooLong = Probe.times("62", 65);
@@ -111,8 +111,8 @@ final class TermsTablesTest {
     }
 
     private static void namesOf1To64() {
-        Probe.sentence("each one of 1 .. 64 bytes that is written in full is put behind all in its table (at place 0, 1,"
-            + " ..);");
+        Probe.sentence("Terms", "each one of 1 .. 64 bytes that is written in full is put behind all in its"
+            + " table (at place 0, 1, ..);");
         String ascii = Probe.times("61", 64);
         String other = Probe.times("C3A9", 32);
         String short8 = Probe.times("C3A9", 28);
@@ -128,7 +128,7 @@ final class TermsTablesTest {
     }
 
     private static void writtenInFull() {
-        Probe.sentence("that is written in full");
+        Probe.sentence("Terms", "that is written in full");
         // What is told by its place does not come again: the next one in full gets the next place.
         Run x = array("61", "61", "61", "62", "61", "62");
         Probe.due("texts", x.writes(2), "F8" + "4061" + "01" + "01" + "4062" + "01" + "02" + "F9");
@@ -162,7 +162,7 @@ final class TermsTablesTest {
     }
 
     private static void emptiedAt1024() {
-        Probe.sentence("when there are 1024, that is emptied before.");
+        Probe.sentence("Terms", "when there are 1024, that is emptied before.");
         String other = "427A7A7A";
         textsBehind(1023, text(0) + text(1021), "01" + "EFFD");
         // The 1024th comes behind all the others ..
@@ -174,7 +174,8 @@ final class TermsTablesTest {
     }
 
     private static void toldByTheLeast() {
-        Probe.sentence("One that stands in it at a place that can be TOLD is told by that instead: the least one;");
+        Probe.sentence("Terms", "One that stands in it at a place that can be TOLD is told by that instead: the"
+            + " least one;");
         textsBehind(3, text(0) + text(1) + text(2) + text(0), "01" + "02" + "03" + "01");
         // At 254 and 255, which can't be told, then at 256: this is the least one.
         String same = text(254);
@@ -182,7 +183,7 @@ final class TermsTablesTest {
     }
 
     private static void placesThatCantBeTold() {
-        Probe.sentence("these are all but those whose lowest 8 bits are FE or FF.");
+        Probe.sentence("Terms", "these are all but those whose lowest 8 bits are FE or FF.");
         for (int high = 1; high <= 3; high++) {
             int n = 256 * high + 1;
             int fe = 256 * high - 2;
@@ -200,7 +201,7 @@ final class TermsTablesTest {
     }
 
     private static void lastPlacesThatCantBeTold() {
-        Probe.sentence("these are all but those whose lowest 8 bits are FE or FF.");
+        Probe.sentence("Terms", "these are all but those whose lowest 8 bits are FE or FF.");
         // Written in full again, what stands at 1022 or 1023 finds the table full, and empties it.
         textsBehind(1024, text(1021) + text(1022) + text(1022) + text(0) + text(1023),
             "EFFD" + text(1022) + "01" + text(0) + text(1023));
@@ -220,7 +221,8 @@ final class TermsTablesTest {
     }
 
     private static void placesOfNames() {
-        Probe.sentence("Of names: 40 + the place below 64; others 30 + the place / 256, its lowest 8 bits.");
+        Probe.sentence("Terms", "Of names: 40 + the place below 64; others 30 + the place / 256, its lowest 8"
+            + " bits.");
         int[] places = {0, 1, 62, 63, 64, 65, 253, 256, 257, 509, 512, 700, 730};
         String[] due = {"40", "41", "7E", "7F", "3040", "3041", "30FD", "3100", "3101", "31FD", "3200", "32BC", "32DA"};
         StringBuilder more = new StringBuilder();
@@ -238,7 +240,8 @@ final class TermsTablesTest {
     }
 
     private static void placesOfTexts() {
-        Probe.sentence("Of texts: 1 + the place below 31; others EC + the place / 256, its lowest 8 bits.");
+        Probe.sentence("Terms", "Of texts: 1 + the place below 31; others EC + the place / 256, its lowest 8"
+            + " bits.");
         int[] places = {0, 1, 29, 30, 31, 32, 63, 64, 253, 256, 509, 512, 765, 768, 1021};
         String[] due = {"01", "02", "1E", "1F", "EC1F", "EC20", "EC3F", "EC40", "ECFD", "ED00", "EDFD", "EE00", "EEFD",
             "EF00", "EFFD"};

@@ -42,7 +42,8 @@ final class TermsWrittenTest {
     }
 
     private static void flags() {
-        Probe.sentence("WRITTEN with FLAGS: bits 1 names are told again by where they were, 2 texts are, 4 bytes are raw.");
+        Probe.sentence("Terms", "WRITTEN with FLAGS: bits 1 names are told again by where they were, 2 texts"
+            + " are, 4 bytes are raw.");
         for (int flags = 0; flags <= 7; flags++) {
             String name = (flags & 1) != 0 ? "40" : "8061";
             String text = (flags & 2) != 0 ? "01" : "4062";
@@ -52,7 +53,7 @@ final class TermsWrittenTest {
     }
 
     private static void head() {
-        Probe.sentence("First 3A 29 0A (all in hex), and the flags.");
+        Probe.sentence("Terms", "First 3A 29 0A (all in hex), and the flags.");
         for (int flags = 0; flags <= 7; flags++) {
             Run x = new Run();
             x.value(0);
@@ -62,7 +63,7 @@ final class TermsWrittenTest {
     }
 
     private static void singles() {
-        Probe.sentence("20 the empty text, 21 null, 22 false, 23 true;");
+        Probe.sentence("Terms", "20 the empty text, 21 null, 22 false, 23 true;");
         String[] signs = {"21", "22", "23", "20"};
         for (int kind = 0; kind <= 3; kind++) {
             Run x = new Run();
@@ -83,7 +84,7 @@ final class TermsWrittenTest {
     }
 
     private static void smallIntegers() {
-        Probe.sentence("an integer -16 .. 15: C0 + its ZIGZAG");
+        Probe.sentence("Terms", "an integer -16 .. 15: C0 + its ZIGZAG");
         integer(-17, "24 A1");
         for (int v = -16; v <= 15; v++) {
             integer(v, Probe.hex(0xC0 + (v >= 0 ? 2 * v : -2 * v - 1)));
@@ -92,7 +93,7 @@ final class TermsWrittenTest {
     }
 
     private static void zigzag() {
-        Probe.sentence("(twice a number that is not below 0, else twice what it lacks to 0, less 1)");
+        Probe.sentence("Terms", "(twice a number that is not below 0, else twice what it lacks to 0, less 1)");
         integer(0, "C0");
         integer(-1, "C1");
         integer(1, "C2");
@@ -106,7 +107,7 @@ final class TermsWrittenTest {
     }
 
     private static void integersOf32And64() {
-        Probe.sentence("others that 32 bits can tell: 24, others 25, then their zigzag as a COUNT.");
+        Probe.sentence("Terms", "others that 32 bits can tell: 24, others 25, then their zigzag as a COUNT.");
         integer(Integer.MAX_VALUE - 1, "24 1F 7F 7F 7F BC");
         integer(Integer.MAX_VALUE, "24 1F 7F 7F 7F BE");
         integer(Integer.MAX_VALUE + 1L, "25 20 00 00 00 80");
@@ -118,8 +119,8 @@ final class TermsWrittenTest {
     }
 
     private static void counts() {
-        Probe.sentence("A count: in bytes, the last one 80 and the lowest 6 bits, before it bytes of 7 bits each,"
-            + " the highest first, none more than must be");
+        Probe.sentence("Terms", "A count: in bytes, the last one 80 and the lowest 6 bits, before it bytes of 7"
+            + " bits each, the highest first, none more than must be");
         integer(-32, "24 BF");
         integer(32, "24 01 80");
         integer(-4096, "24 7F BF");
@@ -142,7 +143,7 @@ final class TermsWrittenTest {
     }
 
     private static void countOfOneByte() {
-        Probe.sentence("(one at least)");
+        Probe.sentence("Terms", "(one at least)");
         Run x = new Run();
         x.value(4);
         Probe.due("a count of 0", x.writes(4), "FD80");
@@ -159,8 +160,8 @@ final class TermsWrittenTest {
     }
 
     private static void reals() {
-        Probe.sentence("28 a real of 32 bits, 29 of 64: 5 or 10 bytes of 7 bits each, the highest bits first (0 before"
-            + " them).");
+        Probe.sentence("Terms", "28 a real of 32 bits, 29 of 64: 5 or 10 bytes of 7 bits each, the highest bits"
+            + " first (0 before them).");
         real(0, 0, "28 00 00 00 00 00");
         real(1, 0, "28 00 00 00 00 01");
         real(0x3F800000L, 0, "28 03 7C 00 00 00");
@@ -189,7 +190,7 @@ final class TermsWrittenTest {
     }
 
     private static void asciiUpTo32() {
-        Probe.sentence("an ASCII text of 1 .. 32 bytes: 40 + their number less 1;");
+        Probe.sentence("Terms", "an ASCII text of 1 .. 32 bytes: 40 + their number less 1;");
         text("", "20", "");
         text("00", "40", "");
         for (int n = 1; n <= 32; n++) {
@@ -198,28 +199,28 @@ final class TermsWrittenTest {
     }
 
     private static void asciiUpTo64() {
-        Probe.sentence("of 33 .. 64: 60 + that less 33;");
+        Probe.sentence("Terms", "of 33 .. 64: 60 + that less 33;");
         for (int n = 33; n <= 64; n++) {
             text(Probe.times("61", n), Probe.hex(0x60 + n - 33), "");
         }
     }
 
     private static void othersUpTo33() {
-        Probe.sentence("others of 2 .. 33: 80 + that less 2,");
+        Probe.sentence("Terms", "others of 2 .. 33: 80 + that less 2,");
         for (int n = 2; n <= 33; n++) {
             text(other(n), Probe.hex(0x80 + n - 2), "");
         }
     }
 
     private static void othersUpTo64() {
-        Probe.sentence("of 34 .. 64: A0 + that less 34;");
+        Probe.sentence("Terms", "of 34 .. 64: A0 + that less 34;");
         for (int n = 34; n <= 64; n++) {
             text(other(n), Probe.hex(0xA0 + n - 34), "");
         }
     }
 
     private static void longTexts() {
-        Probe.sentence("longer ones: E0 (ASCII) or E4, the bytes, FC.");
+        Probe.sentence("Terms", "longer ones: E0 (ASCII) or E4, the bytes, FC.");
         text(Probe.times("61", 64), "7F", "");
         text(Probe.times("61", 65), "E0", "FC");
         text(Probe.times("61", 1000), "E0", "FC");
@@ -230,7 +231,7 @@ final class TermsWrittenTest {
     }
 
     private static void rawBytes() {
-        Probe.sentence("bytes: raw FD, their number as a count, the bytes;");
+        Probe.sentence("Terms", "bytes: raw FD, their number as a count, the bytes;");
         String[] counts = {"80", "81", "BF", "0180", "0181", "0FA8"};
         int[] numbers = {0, 1, 63, 64, 65, 1000};
         for (int k = 0; k < counts.length; k++) {
@@ -258,7 +259,8 @@ final class TermsWrittenTest {
     }
 
     private static void bitsOfBytes() {
-        Probe.sentence("else E8, their number as a count, then all their bits, 7 in each byte, the highest first;");
+        Probe.sentence("Terms", "else E8, their number as a count, then all their bits, 7 in each byte, the"
+            + " highest first;");
         bits("", "80");
         bits("80", "81 40 00");
         bits("0102", "82 00 40 02");
@@ -270,7 +272,7 @@ final class TermsWrittenTest {
     }
 
     private static void bitsThatAreLeft() {
-        Probe.sentence("the last byte has those that are left, as its lowest ones.");
+        Probe.sentence("Terms", "the last byte has those that are left, as its lowest ones.");
         bits("FF", "81 7F 01");
         bits("FFFF", "82 7F 7F 03");
         bits("FFFFFF", "83 7F 7F 7F 07");
@@ -285,7 +287,7 @@ final class TermsWrittenTest {
     }
 
     private static void arrays() {
-        Probe.sentence("F8, the values of an array, F9;");
+        Probe.sentence("Terms", "F8, the values of an array, F9;");
         Run x = new Run();
         x.value(5);
         x.value(5);
@@ -302,7 +304,7 @@ final class TermsWrittenTest {
     }
 
     private static void objects() {
-        Probe.sentence("FA, the parts of an object, FB: before each value its name:");
+        Probe.sentence("Terms", "FA, the parts of an object, FB: before each value its name:");
         Run x = new Run();
         x.value(6);
         x.name("61");
@@ -346,12 +348,12 @@ final class TermsWrittenTest {
     }
 
     private static void emptyNames() {
-        Probe.sentence("20 the empty one;");
+        Probe.sentence("Terms", "20 the empty one;");
         name("", "20", "");
     }
 
     private static void asciiNames() {
-        Probe.sentence("an ASCII one of 1 .. 64 bytes: 80 + that less 1;");
+        Probe.sentence("Terms", "an ASCII one of 1 .. 64 bytes: 80 + that less 1;");
         name("00", "80", "");
         for (int n = 1; n <= 64; n++) {
             name(Probe.times("61", n), Probe.hex(0x80 + n - 1), "");
@@ -359,14 +361,14 @@ final class TermsWrittenTest {
     }
 
     private static void otherNames() {
-        Probe.sentence("others of 2 .. 57: C0 + that less 2;");
+        Probe.sentence("Terms", "others of 2 .. 57: C0 + that less 2;");
         for (int n = 2; n <= 57; n++) {
             name(other(n), Probe.hex(0xC0 + n - 2), "");
         }
     }
 
     private static void longNames() {
-        Probe.sentence("others: 34, the bytes, FC.");
+        Probe.sentence("Terms", "others: 34, the bytes, FC.");
         name(Probe.times("61", 64), "BF", "");
         name(Probe.times("61", 65), "34", "FC");
         name(Probe.times("61", 1000), "34", "FC");
