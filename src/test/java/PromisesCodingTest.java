@@ -308,7 +308,8 @@ final class PromisesCodingTest {
         named.name("7A7A");
         Run whole = new Run();
         whole.text("7A");
-        for (Run x : new Run[] {new Run(), open, named, whole}) {
+        Run read = Run.of(0, "FA8061427A7A7AFB");
+        for (Run x : new Run[] {new Run(), open, named, whole, read}) {
             String items = x.items();
             int bytes = x.count(2);
             for (int k = 0; k < wrong.length; k++) {

@@ -327,7 +327,8 @@ final class PromisesMakingTest {
             Probe.due("1000 bytes", x.value(4), k + 1);
         }
         Probe.due("bytes", x.count(2), 5000);
-        Probe.due("none more", x.value(4), 7);
+        Probe.due("no bytes more", x.value(4), 7);
+        Probe.due("no bytes more", x.integer(0), 8);
         x.type(0x61, 1);
         Probe.due("one more", x.value(4), NONE);
         Probe.due("one more", x.value(3), NONE);

@@ -60,11 +60,12 @@ final class TermsDocumentTest {
 
     private static void textsAreUtf8() {
         Probe.sentence("Terms", "TEXTS are bytes: UTF-8 of characters");
-        areTexts("", "00", "61", "C3A9", "E282AC", "F09F9880", "C3A9E282ACF09F9880");
+        areTexts("", "00", "61", "C3A9", "E282AC", "F09F9880", "C3A9E282ACF09F9880", "E0BFBF", "F0BFBFBF");
         // One byte too few, a byte that goes on with nothing, and one that does not go on.
         areNoTexts("C3", "E2", "E282", "F0", "F09F", "F09F98", "80", "BF", "C3A9A9", "E282AC80", "F09F988080");
         areNoTexts("C37F", "C3C0", "E27F80", "E2C080", "E2827F", "E282C0", "F07F9880", "F0C09880", "F09F7F80",
-            "F09FC080", "F09F987F", "F09F98C0", "C3C3A9");
+            "F09FC080", "F09F987F", "F09F98C0", "C3C3A9", "E07F80", "E0C080", "ED7F80", "EDC080", "F0C08080",
+            "F47F8080", "F4C08080");
         areNoTexts("FC", "FE", "FF", "FC8080808080");
         // What would go on with a character stands behind the text already.
         Probe.due("a character cut by its text's end", new Run().reads(0, "F8 80 61 C3 A9 F9"), 4);

@@ -9,6 +9,7 @@ final class TermsTablesTest {
         writtenInFull();
         emptiedAt1024();
         toldByTheLeast();
+        toldWhenTheSame();
         placesThatCantBeTold();
         lastPlacesThatCantBeTold();
         placesOfNames();
@@ -180,6 +181,23 @@ final class TermsTablesTest {
         // At 254 and 255, which can't be told, then at 256: this is the least one.
         String same = text(254);
         textsBehind(254, Probe.times(same, 5), Probe.times(same, 3) + "ED00" + "ED00");
+    }
+
+    private static void toldWhenTheSame() {
+        Probe.sentence("Terms", "One that stands in it at a place that can be TOLD is told by that instead:");
+        // One byte alone, the first, the last or one more, makes it another one.
+        for (int which = 0; which <= 2; which++) {
+            StringBuilder texts = new StringBuilder();
+            StringBuilder places = new StringBuilder();
+            for (int k = 0; k < 128; k++) {
+                String one = Probe.hex(which == 2 ? 0x40 + k / 2 : k);
+                texts.append(which == 0 ? "41" + one + "61" : which == 1 ? "4161" + one
+                    : k % 2 == 0 ? "40" + one : "41" + one + "00");
+                places.append(k < 31 ? Probe.hex(1 + k) : "EC" + Probe.hex(k));
+            }
+            Run x = Run.of(0, "F8" + texts + texts + "F9");
+            Probe.due("texts", x.writes(2), "F8" + texts + places + "F9");
+        }
     }
 
     private static void placesThatCantBeTold() {
