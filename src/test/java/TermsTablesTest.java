@@ -185,18 +185,18 @@ final class TermsTablesTest {
 
     private static void toldWhenTheSame() {
         Probe.sentence("Terms", "One that stands in it at a place that can be TOLD is told by that instead:");
-        // One byte alone, the first, the last or one more, makes it another one.
-        for (int which = 0; which <= 2; which++) {
-            StringBuilder texts = new StringBuilder();
-            StringBuilder places = new StringBuilder();
-            for (int k = 0; k < 128; k++) {
-                String one = Probe.hex(which == 2 ? 0x40 + k / 2 : k);
-                texts.append(which == 0 ? "41" + one + "61" : which == 1 ? "4161" + one
-                    : k % 2 == 0 ? "40" + one : "41" + one + "00");
-                places.append(k < 31 ? Probe.hex(1 + k) : "EC" + Probe.hex(k));
+        // One byte more, or one byte that is another one, makes it another text.
+        for (int k = 2000; k < 2400; k++) {
+            String some = Probe.twoBytes(k);
+            StringBuilder texts = new StringBuilder("41" + some);
+            StringBuilder places = new StringBuilder("01");
+            for (int place = 1; place <= 128; place++) {
+                String one = Probe.hex(place - 1);
+                texts.append("42").append(k % 2 == 0 ? some + one : one + some);
+                places.append(place < 31 ? Probe.hex(1 + place) : "EC" + Probe.hex(place));
             }
             Run x = Run.of(0, "F8" + texts + texts + "F9");
-            Probe.due("texts", x.writes(2), "F8" + texts + places + "F9");
+            Probe.due("texts with " + some, x.writes(2), "F8" + texts + places + "F9");
         }
     }
 
