@@ -1,6 +1,7 @@
 import java.io.IOException;
 import java.nio.file.Files;
 import java.nio.file.Path;
+import java.nio.file.StandardOpenOption;
 
 /** What the tests share: bytes as hex, and the answers that were not due, each with the sentence it breaks. */
 final class Probe {
@@ -8,6 +9,7 @@ final class Probe {
     private static int wrong = 0;
     private static int sentences = 0;
     private static String sentence = "";
+    private static final StringBuilder QUOTED = new StringBuilder();
 
     private Probe() {
     }
@@ -22,7 +24,8 @@ final class Probe {
         }
     }
 
-    private static String plain(String text) {
+    /** A text without its line ends. */
+    static String plain(String text) {
         return text.replaceAll("\\s+", " ");
     }
 
@@ -30,6 +33,7 @@ final class Probe {
     static void sentence(String section, String words) {
         sentence = section + ", \"" + words + "\": ";
         sentences++;
+        QUOTED.append(section).append('\t').append(words).append('\n');
         if (DOCUMENT != null && !section(section).contains(plain(words))) {
             complain("these words are not in the document");
         }
@@ -57,16 +61,30 @@ final class Probe {
         }
     }
 
-    private static void complain(String text) {
+    static void complain(String text) {
         wrong++;
         System.out.println(sentence + text);
     }
 
     static void finish() {
+        keepQuoted();
         String tested = sentences == 0 ? "" : sentences + " sentences: ";
         System.out.println(tested + (wrong == 0 ? "all answers are as due" : wrong + " answers are not as due"));
         if (wrong != 0) {
             System.exit(1);
+        }
+    }
+
+    /** Leaves the quoted words for Quotes, which looks for those that no test quotes. */
+    private static void keepQuoted() {
+        String path = System.getProperty("quoted");
+        if (path == null) {
+            return;
+        }
+        try {
+            Files.writeString(Path.of(path), QUOTED, StandardOpenOption.CREATE, StandardOpenOption.APPEND);
+        } catch (IOException e) {
+            throw new IllegalStateException("the quoted words can't be kept: " + path, e);
         }
     }
 

@@ -1,3 +1,5 @@
+import java.lang.reflect.Field;
+
 /** Promises 15 to 19: what is asked of a document, at its first and last items and bytes, and beyond them. */
 final class PromisesAskingTest {
     private static final int NONE = GrinCoder.NONE;
@@ -7,7 +9,7 @@ final class PromisesAskingTest {
     private static final int[] DEPTHS = {0, 1, 1, 2, 2, 2, 2, 2, 2, 2, 2, 1, 1, 1, 0};
     private static final long[] NUMBERS = {0, 0, 0, 0, 0, 0, 0, 0, -7, 0x80000000L, Long.MIN_VALUE, 0, 0, 0, 0};
 
-    public static void main(String[] args) {
+    public static void main(String[] args) throws ReflectiveOperationException {
         for (Run x : new Run[] {allKinds(), allKindsRead()}) {
             kinds(x);
             lengths(x);
@@ -28,6 +30,8 @@ final class PromisesAskingTest {
         countOfWritten();
         countOfOthers();
         checks();
+        checkOfOneValue();
+        checkOfWhatIsOpen();
         nothingIsChanged();
         Probe.finish();
     }
@@ -305,6 +309,50 @@ final class PromisesAskingTest {
         Probe.due("1500 items", x.check(), 1);
         x.drop();
         Probe.due("none again", x.check(), 1);
+    }
+
+    // No call breaks what check() looks at, so it is broken from outside, by the names that the class has inside.
+
+    private static void checkOfOneValue() throws ReflectiveOperationException {
+        Probe.sentence("Promise 19", "Whether the document has one value at most, and all that is open in it is"
+            + " not more than it has: 1; it would tell 0.");
+        GrinCoder x = new GrinCoder();
+        x.value(5);
+        x.value(0);
+        x.integer(1);
+        x.end();
+        Object document = inside(x, "document").get(x);
+        int[] depths = (int[]) inside(document, "depths").get(document);
+        Probe.due("one value", x.check(), 1);
+        depths[1] = 0;
+        Probe.due("two values", x.check(), 0);
+        depths[2] = 0;
+        Probe.due("three values", x.check(), 0);
+        depths[1] = 1;
+        Probe.due("two others", x.check(), 0);
+        depths[2] = 1;
+        Probe.due("one value again", x.check(), 1);
+    }
+
+    private static void checkOfWhatIsOpen() throws ReflectiveOperationException {
+        Probe.sentence("Promise 19", "and all that is open in it is not more than it has: 1; it would tell 0.");
+        GrinCoder x = new GrinCoder();
+        Object document = inside(x, "document").get(x);
+        Field open = inside(document, "depth");
+        for (int items = 0; items <= 3; items++) {
+            for (int depth = 0; depth <= 5; depth++) {
+                open.setInt(document, depth);
+                Probe.due(depth + " open of " + items, x.check(), depth <= items ? 1 : 0);
+            }
+            open.setInt(document, items);
+            x.value(5);
+        }
+    }
+
+    private static Field inside(Object object, String name) throws ReflectiveOperationException {
+        Field field = object.getClass().getDeclaredField(name);
+        field.setAccessible(true);
+        return field;
     }
 
     private static void nothingIsChanged() {

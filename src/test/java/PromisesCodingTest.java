@@ -41,7 +41,7 @@ final class PromisesCodingTest {
     }
 
     private static void constants() {
-        Probe.sentence("Terms", "`NONE = -1`: There is none, or nothing is done.");
+        Probe.sentence("Terms", "The constants: `NONE = -1`: There is none, or nothing is done.");
         Probe.due("NONE", GrinCoder.NONE, -1);
         Probe.sentence("Terms", "`FULL = -2`: It would be too long.");
         Probe.due("FULL", GrinCoder.FULL, -2);

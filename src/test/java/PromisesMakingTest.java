@@ -30,7 +30,6 @@ final class PromisesMakingTest {
         endsWhenAValueMustCome();
         drops();
         dropsLeaveTheRest();
-        calls512();
         Probe.finish();
     }
 
@@ -559,35 +558,5 @@ final class PromisesMakingTest {
         Probe.due("read()", x.read(), 0);
         Probe.due("items", x.items(), "0i1");
         Probe.due("whole", x.count(1), 1);
-    }
-
-    private static void calls512() {
-        Probe.sentence("What it is", "An object is used for at most 512 calls after it has been made;");
-        GrinCoder x = new GrinCoder();
-        x.value(5);
-        for (int call = 2; call <= 512; call++) {
-            Probe.due("call " + call, x.integer(call), call);
-        }
-        // What later calls answer is free, but none may throw: they are tried up to all limits.
-        for (int k = 0; k < 2000; k++) {
-            x.type(0x6161616161616161L, 8);
-            x.value(k % 2 + 3);
-            x.load(0xF8F8F8F8F8F8F8F8L, 8);
-            x.end();
-        }
-        x.drop();
-        for (int k = 0; k < 800; k++) {
-            x.value(6);
-            x.name();
-            x.type(-1, 8);
-            x.value(4);
-        }
-        for (int k = 0; k < 100; k++) {
-            x.end();
-            x.write(k % 8);
-            x.loop();
-            x.read();
-        }
-        Probe.due("check()", x.check(), 1);
     }
 }

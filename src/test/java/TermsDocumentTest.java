@@ -8,8 +8,10 @@ final class TermsDocumentTest {
         noneOfD800();
         asShortAsCanBe();
         asciiBelow128();
+        singleValues();
         integersAreLongs();
         realsOfTwoWidths();
+        textsAndBytes();
         arraysOfValues();
         objectsOfParts();
         namesMayBeTheSame();
@@ -111,6 +113,22 @@ final class TermsDocumentTest {
         Probe.due("128 as a name", new Run().reads(0, "FA 80 80 21 FB"), 4);
     }
 
+    private static void singleValues() {
+        Probe.sentence("Terms", "VALUES: null, false, true;");
+        String[] items = {"0n", "0f", "0t"};
+        for (int kind = 0; kind <= 2; kind++) {
+            Run x = new Run();
+            Probe.due("value(" + kind + ")", x.value(kind), 1);
+            Probe.due("made", x.items(), items[kind]);
+            x.write(0);
+            x.loop();
+            x.drop();
+            Probe.due("read()", x.read(), 0);
+            Probe.due("read again", x.items(), items[kind]);
+            Probe.due("without bytes", x.count(2), 0);
+        }
+    }
+
     private static void integersAreLongs() {
         Probe.sentence("Terms", "INTEGERS (longs)");
         Run x = new Run();
@@ -149,6 +167,40 @@ final class TermsDocumentTest {
         x.loop();
         Probe.due("read()", x.read(), 0);
         Probe.due("reals, read again", x.items(), items);
+    }
+
+    private static void textsAndBytes() {
+        Probe.sentence("Terms", "texts; BYTES;");
+        // The same bytes are two values, and stay so.
+        Run x = new Run();
+        x.value(5);
+        for (String hex : new String[] {"", "61", "C3A9"}) {
+            x.text(hex);
+            x.bytes(hex);
+        }
+        x.end();
+        String items = "0[ 1s 1b 1s61 1b61 1sC3A9 1bC3A9 0]";
+        Probe.due("made", x.items(), items);
+        for (int flags = 0; flags <= 7; flags++) {
+            x.write(flags);
+            x.loop();
+            Probe.due("read()", x.read(), 0);
+            Probe.due("read again", x.items(), items);
+        }
+        // Bytes may be any, those that no text has too.
+        StringBuilder all = new StringBuilder();
+        for (int b = 0; b <= 255; b++) {
+            all.append(Probe.hex(b));
+        }
+        for (int flags = 0; flags <= 4; flags += 4) {
+            Run y = new Run();
+            y.bytes(all.toString());
+            y.write(flags);
+            y.loop();
+            y.drop();
+            Probe.due("read()", y.read(), 0);
+            Probe.due("read again", y.items(), "0b" + all);
+        }
     }
 
     private static void arraysOfValues() {

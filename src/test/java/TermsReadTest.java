@@ -4,6 +4,7 @@ final class TermsReadTest {
 
     public static void main(String[] args) {
         allThatIsWritten();
+        atGreaterLength();
         smallIntegers();
         textsAsLongOnes();
         emptyTexts();
@@ -63,6 +64,30 @@ final class TermsReadTest {
             Probe.due("read() of what is written with " + flags, x.read(), 0);
             Probe.due("items written with " + flags, x.items(), items);
         }
+    }
+
+    private static void atGreaterLength() {
+        Probe.sentence("Terms", "READ is all of this, also told at greater length than it is written:");
+        String[][] longAndWritten = {
+            {"24 80", "C0"}, {"24 9F", "DF"}, {"25 00 9E", "DE"}, {"24 00 A0", "24 A0"},
+            {"25 00 1F 7F 7F 7F BF", "24 1F 7F 7F 7F BF"}, {"E061FC", "4061"}, {"E4 61 FC", "4061"}, {"E4 C3A9 FC", "80C3A9"},
+            {"E0FC", "20"}, {"E4FC", "20"}, {"FA 34FC 21 FB", "FA 20 21 FB"}, {"FA 3461FC 21 FB", "FA 8061 21 FB"},
+            {"FA 34C3A9FC 21 FB", "FA C0C3A9 21 FB"}, {"FD 00 81 FF", "FD 81 FF"}, {"E8 00 81 7F 01", "FD 81 FF"},
+            {"F8 4061 4061 F9", "F8 4061 01 F9"}, {"F8 4061 EC00 F9", "F8 4061 01 F9"},
+            {"FA 8061 21 8061 21 FB", "FA 8061 21 40 21 FB"}, {"FA 8061 21 3000 21 FB", "FA 8061 21 40 21 FB"},
+        };
+        for (String[] pair : longAndWritten) {
+            String hex = Probe.plainHex(pair[1]);
+            Run x = Run.of(7, pair[0]);
+            Probe.due(pair[0] + ", written", x.writes(7), hex);
+            Probe.due("the same as " + pair[1], x.items(), Run.of(7, hex).items());
+            Probe.due("greater length", Probe.plainHex(pair[0]).length() > hex.length() ? 1 : 0, 1);
+        }
+        // As long, but told otherwise than it is written.
+        Probe.due("ASCII as 80", Run.of(0, "80 6162").writes(0), "416162");
+        Probe.due("ASCII as A0", Run.of(0, "A0" + Probe.times("61", 34)).writes(0), "61" + Probe.times("61", 34));
+        Probe.due("a name as C0", Run.of(0, "FA C06162 21 FB").writes(0), "FA81616221FB");
+        Probe.due("32 bits as 25", Run.of(0, "25 A0").writes(0), "24A0");
     }
 
     private static void smallIntegers() {

@@ -14,6 +14,7 @@ final class TermsWrittenTest {
         asciiUpTo64();
         othersUpTo33();
         othersUpTo64();
+        thenTheBytes();
         longTexts();
         rawBytes();
         bitsOfBytes();
@@ -23,6 +24,7 @@ final class TermsWrittenTest {
         emptyNames();
         asciiNames();
         otherNames();
+        bytesOfNames();
         longNames();
         Probe.finish();
     }
@@ -53,7 +55,7 @@ final class TermsWrittenTest {
     }
 
     private static void head() {
-        Probe.sentence("Terms", "First 3A 29 0A (all in hex), and the flags.");
+        Probe.sentence("Terms", "First 3A 29 0A (all in hex), and the flags. Then the value:");
         for (int flags = 0; flags <= 7; flags++) {
             Run x = new Run();
             x.value(0);
@@ -219,6 +221,26 @@ final class TermsWrittenTest {
         }
     }
 
+    /** Bytes from 21 on (all in hex), n of them, no two the same; they end in a character of two if it is no ASCII. */
+    private static String row(int n, boolean ascii) {
+        StringBuilder all = new StringBuilder();
+        for (int k = 0; k < (ascii ? n : n - 2); k++) {
+            all.append(Probe.hex(0x21 + k));
+        }
+        return all + (ascii ? "" : "C3A9");
+    }
+
+    private static void thenTheBytes() {
+        Probe.sentence("Terms", "40 + their number less 1; of 33 .. 64: 60 + that less 33; others of 2 .. 33: 80 + that"
+            + " less 2, of 34 .. 64: A0 + that less 34; then the bytes;");
+        text(row(32, true), "5F", "");
+        text(row(33, true), "60", "");
+        text(row(64, true), "7F", "");
+        text(row(33, false), "9F", "");
+        text(row(34, false), "A0", "");
+        text(row(64, false), "BE", "");
+    }
+
     private static void longTexts() {
         Probe.sentence("Terms", "longer ones: E0 (ASCII) or E4, the bytes, FC.");
         text(Probe.times("61", 64), "7F", "");
@@ -228,6 +250,8 @@ final class TermsWrittenTest {
         text(other(65), "E4", "FC");
         text(Probe.times("61", 64) + "C3A9", "E4", "FC");
         text(other(1000), "E4", "FC");
+        text(row(70, true), "E0", "FC");
+        text(row(70, false), "E4", "FC");
     }
 
     private static void rawBytes() {
@@ -367,6 +391,14 @@ final class TermsWrittenTest {
         }
     }
 
+    private static void bytesOfNames() {
+        Probe.sentence("Terms", "80 + that less 1; others of 2 .. 57: C0 + that less 2; then the bytes;");
+        name(row(2, true), "81", "");
+        name(row(64, true), "BF", "");
+        name(row(3, false), "C1", "");
+        name(row(57, false), "F7", "");
+    }
+
     private static void longNames() {
         Probe.sentence("Terms", "others: 34, the bytes, FC.");
         name(Probe.times("61", 64), "BF", "");
@@ -377,5 +409,7 @@ final class TermsWrittenTest {
             name(other(n), "34", "FC");
         }
         name(other(1000), "34", "FC");
+        name(row(65, true), "34", "FC");
+        name(row(58, false), "34", "FC");
     }
 }
