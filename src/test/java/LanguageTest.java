@@ -54,7 +54,8 @@ final class LanguageTest extends TreePathScanner<Void, Void> {
         Path program = Path.of(System.getProperty("project"), "src", "main", "java", "GrinCoder.java");
         JavaCompiler compiler = ToolProvider.getSystemJavaCompiler();
         try (StandardJavaFileManager files = compiler.getStandardFileManager(null, null, null)) {
-            JavacTask task = (JavacTask) compiler.getTask(null, files, null, null, null, files.getJavaFileObjects(program));
+            JavacTask task = (JavacTask) compiler.getTask(null, files, null, null, null,
+                files.getJavaFileObjects(program));
             CompilationUnitTree unit = task.parse().iterator().next();
             task.analyze();
             new LanguageTest(Trees.instance(task), unit).look();

@@ -70,8 +70,8 @@ final class TermsReadTest {
         Probe.sentence("Terms", "READ is all of this, also told at greater length than it is written:");
         String[][] longAndWritten = {
             {"24 80", "C0"}, {"24 9F", "DF"}, {"25 00 9E", "DE"}, {"24 00 A0", "24 A0"},
-            {"25 00 1F 7F 7F 7F BF", "24 1F 7F 7F 7F BF"}, {"E061FC", "4061"}, {"E4 61 FC", "4061"}, {"E4 C3A9 FC", "80C3A9"},
-            {"E0FC", "20"}, {"E4FC", "20"}, {"FA 34FC 21 FB", "FA 20 21 FB"}, {"FA 3461FC 21 FB", "FA 8061 21 FB"},
+            {"25 00 1F 7F 7F 7F BF", "24 1F 7F 7F 7F BF"}, {"E0 61 FC", "4061"}, {"E4 61 FC", "4061"},
+            {"E4 C3A9 FC", "80C3A9"}, {"E0FC", "20"}, {"E4FC", "20"}, {"FA 34FC 21 FB", "FA 20 21 FB"}, {"FA 3461FC 21 FB", "FA 8061 21 FB"},
             {"FA 34C3A9FC 21 FB", "FA C0C3A9 21 FB"}, {"FD 00 81 FF", "FD 81 FF"}, {"E8 00 81 7F 01", "FD 81 FF"},
             {"F8 4061 4061 F9", "F8 4061 01 F9"}, {"F8 4061 EC00 F9", "F8 4061 01 F9"},
             {"FA 8061 21 8061 21 FB", "FA 8061 21 40 21 FB"}, {"FA 8061 21 3000 21 FB", "FA 8061 21 40 21 FB"},
